@@ -158,10 +158,11 @@ public final class SmallCraft {
     private Plan draft;
 
     public SmallCraft() {
+        Yard shared = new Yard();
         text = new Text();
         book = new Book();
-        yard = new Yard();
-        flight = new Flight(yard);
+        yard = shared;
+        flight = new Flight(shared);
         draft = new Plan();
     }
 
@@ -239,7 +240,7 @@ public final class SmallCraft {
         if (!it.owns(what)) {
             throw new NoSuchElementException("no such part");
         }
-        return it.get(what);
+        return it.value(what);
     }
 
     public int ask(int unit, int question) throws IndexOutOfBoundsException, NoSuchElementException {
@@ -267,7 +268,7 @@ public final class SmallCraft {
         if (k < 0) {
             throw new IndexOutOfBoundsException("no such letter");
         }
-        int letter = letterOf(yard.unitAt(unit).title(), k);
+        int letter = letterOf(yard.unitAt(unit).title, k);
         return letter == 0 ? NONE : letter;
     }
 
@@ -442,6 +443,10 @@ public final class SmallCraft {
             return type == TYPE_END;
         }
 
+        boolean isAnyWord() {
+            return type == TYPE_WORD;
+        }
+
         boolean isSign(int sign) {
             return type == TYPE_SIGN && value == sign;
         }
@@ -467,18 +472,17 @@ public final class SmallCraft {
             return false;
         }
 
-        boolean takeWord() {
-            next();
-            return type == TYPE_WORD || refuse(BAD_TOKEN);
-        }
-
         boolean takeNumber() {
             next();
             return type == TYPE_NUMBER || refuse(BAD_TOKEN);
         }
 
         boolean takeNumber(int least, int greatest) {
-            return takeNumber() && (within(value, least, greatest) || refuse(BAD_NUMBER));
+            next();
+            if (type != TYPE_NUMBER) {
+                return refuse(BAD_TOKEN);
+            }
+            return within(value, least, greatest) || refuse(BAD_NUMBER);
         }
 
         boolean takeSign(int sign) {
@@ -562,7 +566,7 @@ public final class SmallCraft {
         }
 
         private static boolean isLetterOrDigit(int b) {
-            return isLetter(b) || isDigit(b);
+            return b >= 'a' && b <= 'z' || b >= '0' && b <= '9';
         }
     }
 
@@ -687,8 +691,9 @@ public final class SmallCraft {
             if (count < 0 || count >= MOST_UNITS) {
                 return text.refuse(TOO_MANY);
             }
-            if (!text.takeWord()) {
-                return false;
+            text.next();
+            if (!text.isAnyWord()) {
+                return text.refuse(BAD_TOKEN);
             }
             if (isTaken(text.wordRead())) {
                 return text.refuse(BAD_NAME);
@@ -767,40 +772,47 @@ public final class SmallCraft {
     private static final class Unit {
         private final int[] parts = new int[PART_COUNT];
         private final int[] layers = new int[MOST_LAYERS];
-        private final int[] given = new int[3];
         private final int[] row = new int[LARGEST_ROOM];
         private long title;
-        private int depth;
+        private int a1;
+        private int a2;
+        private int a3;
+        private int height;
         private int layerBits;
         private int head;
 
         void describe(Book book, int i) {
             title = book.titleOf(i);
-            for (int k = 0; k < given.length; k++) {
-                given[k] = book.numberOf(i, k);
-            }
+            a1 = book.numberOf(i, 0);
+            a2 = book.numberOf(i, 1);
+            a3 = book.numberOf(i, 2);
             stackLayers(book.layerOf(i));
         }
 
+        /** Puts the layers in their order, the lowest one first. */
         private void stackLayers(int uppermost) {
-            depth = 0;
+            height = 0;
             layerBits = 0;
             int layer = uppermost;
-            for (int i = 0; i < layers.length && layer >= 0 && layer < LAYER_BELOW.length; i++) {
-                layers[i] = layer;
+            for (int i = 0; i < MOST_LAYERS && layer >= 0 && layer < LAYER_BELOW.length; i++) {
                 layerBits |= 1 << layer;
-                depth = i + 1;
                 layer = LAYER_BELOW[layer];
             }
+            for (int code = 0; code < LAYER_BELOW.length; code++) {
+                if (is(code) && height < layers.length) {
+                    layers[height] = code;
+                    height++;
+                }
+            }
+            parts[NAMED] = uppermost;
         }
 
         /** All parts 0 but the constants, which have their numbers ahead of their layers. */
         void clear(int number) {
-            for (int k = 0; k < parts.length; k++) {
+            for (int k = NUMBER; k < parts.length; k++) {
                 parts[k] = 0;
             }
             head = 0;
-            parts[NAMED] = layers[0];
             parts[NUMBER] = number;
             parts[GRADE] = 3;
             parts[POLE] = 7;
@@ -808,49 +820,16 @@ public final class SmallCraft {
             parts[HEAT] = 200;
         }
 
-        long title() {
-            return title;
-        }
-
-        int height() {
-            return depth;
-        }
-
-        /** The layer at a height, the lowest one at 0. */
-        int layerAt(int height) {
-            int i = depth - 1 - height;
-            return i >= 0 && i < layers.length ? layers[i] : UNIT;
-        }
-
         boolean is(int layer) {
-            return layer >= 0 && layer < LAYER_BELOW.length && (layerBits >>> layer & 1) == 1;
-        }
-
-        int get(int what) {
-            return what >= 0 && what < parts.length ? parts[what] : 0;
-        }
-
-        void set(int what, int x) {
-            if (what >= 0 && what < parts.length) {
-                parts[what] = x;
-            }
-        }
-
-        void grow(int what, int x) {
-            set(what, get(what) + x);
-        }
-
-        /** A number of the unit in the book: A1, A2 or A3. */
-        int a(int k) {
-            return k >= 1 && k <= given.length ? given[k - 1] : 0;
+            return (layerBits >>> layer & 1) == 1;
         }
 
         boolean isOn(int layer) {
-            return is(layer) && get(ON) == 1;
+            return is(layer) && parts[ON] == 1;
         }
 
         boolean isWhole(int layer) {
-            return is(layer) && get(BROKEN) == 0;
+            return is(layer) && parts[BROKEN] == 0;
         }
 
         boolean owns(int what) {
@@ -872,6 +851,10 @@ public final class SmallCraft {
             }
         }
 
+        int value(int what) {
+            return what >= 0 && what < parts.length ? parts[what] : 0;
+        }
+
         boolean tells(int question) {
             if (question == ASK_CHANNELS) {
                 return is(SENSOR);
@@ -879,183 +862,148 @@ public final class SmallCraft {
             return question == ASK_PUSH ? is(ACTUATOR) : within(question, ASK_MASS, ASK_TEST);
         }
 
-        /**
-         * The answer of the uppermost layer that tells one. It is found from the lowest layer upwards: each that
-         * tells one makes its answer of the one below, each other hands that on.
-         */
         int answer(int question) {
-            int below = 0;
-            for (int height = 0; height < depth; height++) {
-                below = answerOf(question, layerAt(height), below);
-            }
-            return below;
-        }
-
-        private int answerOf(int question, int layer, int below) {
             switch (question) {
                 case ASK_MASS:
-                    return massOf(layer, below);
+                    return mass();
                 case ASK_SPAN:
-                    return spanOf(layer, below);
+                    return span();
                 case ASK_NEED:
-                    return needOf(layer, below);
+                    return need();
                 case ASK_TEST:
-                    return testOf(layer, below);
+                    return test();
                 case ASK_CHANNELS:
-                    return channelsOf(layer, below);
+                    return channels();
                 case ASK_PUSH:
-                    return pushOf(layer, below);
+                    return push();
                 default:
-                    return below;
-            }
-        }
-
-        private int massOf(int layer, int below) {
-            switch (layer) {
-                case UNIT:
-                    return 5;
-                case STORE:
-                    return 8 + get(ROOM) / 10;
-                case LOAD:
-                    return below + get(WATTS) / 5;
-                case SOURCE:
-                    return below + get(MOST) / 20;
-                case PIPE:
-                    return below + get(FLOW);
-                default:
-                    return below;
-            }
-        }
-
-        private int spanOf(int layer, int below) {
-            switch (layer) {
-                case UNIT:
-                    return 1;
-                case STORE:
-                    return 1 + get(ROOM) / 50;
-                case CELLPACK:
-                    return 2 + get(CELLS) + get(GRADE);
-                case RECORDER:
-                    return below + get(PAGES);
-                case SENSOR:
-                    return below + get(CHANNELS);
-                case CAMERA:
-                    return below + get(LENS);
-                case PULSER:
-                    return 3;
-                case RADIO:
-                    return 2 + Math.floorMod(get(TONE), 3);
-                case PANEL:
-                    return 1 + get(FACE);
-                case TRACKER:
-                    return below + get(STEP);
-                case LINK:
-                    return 1 + Math.floorMod(get(ONE), 2);
-                default:
-                    return below;
-            }
-        }
-
-        private int needOf(int layer, int below) {
-            switch (layer) {
-                case UNIT:
                     return 0;
-                case BATTERY:
-                    return 2 + get(WEAR) + get(GRADE);
-                case CELLPACK:
-                    return get(CELLS) * 2 + get(PAIRS);
-                case LOAD:
-                    return get(WATTS);
-                case HEATER:
-                    return below + get(GLOW) / 4;
-                case SENSOR:
-                    return below + get(CHANNELS);
-                case TRACKER:
-                    return 3;
-                default:
-                    return below;
             }
         }
 
-        private int testOf(int layer, int below) {
-            switch (layer) {
-                case UNIT:
-                    return get(SERIAL) + get(MASS);
-                case STORE:
-                    return below + get(SEAL) - get(ROOM);
-                case BATTERY:
-                    return below + get(WEAR) * get(GRADE);
-                case TANK:
-                    return below * 2 - get(VALVE);
-                case THERMO:
-                    return below + get(BAND) - get(TARGET);
-                case FINEGYRO:
-                    return below * 3 + get(FINE);
-                case ACTUATOR:
-                    return below + get(PUSH);
-                case BEACON:
-                    return below - get(EVERY);
-                case GENERATOR:
-                    return below + get(ROD);
-                case HOSE:
-                    return below - get(FLOW);
-                default:
-                    return below;
+        // Each question goes through the layers from the lowest upwards: one that tells an answer makes it of the
+        // one below, so that in the end it is that of the uppermost one, made or not.
+
+        int mass() {
+            int x = 0;
+            for (int i = 0; i < height && i < layers.length; i++) {
+                switch (layers[i]) {
+                    case UNIT: x = 5; break;
+                    case STORE: x = 8 + parts[ROOM] / 10; break;
+                    case LOAD: x = x + parts[WATTS] / 5; break;
+                    case SOURCE: x = x + parts[MOST] / 20; break;
+                    case PIPE: x = x + parts[FLOW]; break;
+                    default: break;
+                }
             }
+            return x;
         }
 
-        private int channelsOf(int layer, int below) {
-            switch (layer) {
-                case SENSOR:
-                    return 1;
-                case GYRO:
-                    return get(AXES);
-                case FINEGYRO:
-                    return below + get(FINE);
-                case SUNEYE:
-                    return 2;
-                case PROBE:
-                    return below + get(SHIFT);
-                case CAMERA:
-                    return 3 + get(LENS);
-                default:
-                    return below;
+        int span() {
+            int x = 0;
+            for (int i = 0; i < height && i < layers.length; i++) {
+                switch (layers[i]) {
+                    case UNIT: x = 1; break;
+                    case STORE: x = 1 + parts[ROOM] / 50; break;
+                    case CELLPACK: x = 2 + parts[CELLS] + parts[GRADE]; break;
+                    case RECORDER: x = x + parts[PAGES]; break;
+                    case SENSOR: x = x + parts[CHANNELS]; break;
+                    case CAMERA: x = x + parts[LENS]; break;
+                    case PULSER: x = 3; break;
+                    case RADIO: x = 2 + parts[TONE] % 3; break;
+                    case PANEL: x = 1 + parts[FACE]; break;
+                    case TRACKER: x = x + parts[STEP]; break;
+                    case LINK: x = 1 + parts[ONE] % 2; break;
+                    default: break;
+                }
             }
+            return x;
         }
 
-        private int pushOf(int layer, int below) {
-            switch (layer) {
-                case ACTUATOR:
-                    return 4 + get(AXIS);
-                case WHEEL:
-                    return 2 + get(MOST) / 100;
-                case COIL:
-                    return get(POLE) + get(TURNS) - below;
-                case JET:
-                    return below * (1 + get(GAS));
-                case PULSER:
-                    return below / 2 + get(BEAT);
-                default:
-                    return below;
+        int need() {
+            int x = 0;
+            for (int i = 0; i < height && i < layers.length; i++) {
+                switch (layers[i]) {
+                    case UNIT: x = 0; break;
+                    case BATTERY: x = 2 + parts[WEAR] + parts[GRADE]; break;
+                    case CELLPACK: x = parts[CELLS] * 2 + parts[PAIRS]; break;
+                    case LOAD: x = parts[WATTS]; break;
+                    case HEATER: x = x + parts[GLOW] / 4; break;
+                    case SENSOR: x = x + parts[CHANNELS]; break;
+                    case TRACKER: x = 3; break;
+                    default: break;
+                }
             }
+            return x;
+        }
+
+        int test() {
+            int x = 0;
+            for (int i = 0; i < height && i < layers.length; i++) {
+                switch (layers[i]) {
+                    case UNIT: x = parts[SERIAL] + parts[MASS]; break;
+                    case STORE: x = x + parts[SEAL] - parts[ROOM]; break;
+                    case BATTERY: x = x + parts[WEAR] * parts[GRADE]; break;
+                    case TANK: x = x * 2 - parts[VALVE]; break;
+                    case THERMO: x = x + parts[BAND] - parts[TARGET]; break;
+                    case FINEGYRO: x = x * 3 + parts[FINE]; break;
+                    case ACTUATOR: x = x + parts[PUSH]; break;
+                    case BEACON: x = x - parts[EVERY]; break;
+                    case GENERATOR: x = x + parts[ROD]; break;
+                    case HOSE: x = x - parts[FLOW]; break;
+                    default: break;
+                }
+            }
+            return x;
+        }
+
+        int channels() {
+            int x = 0;
+            for (int i = 0; i < height && i < layers.length; i++) {
+                switch (layers[i]) {
+                    case SENSOR: x = 1; break;
+                    case GYRO: x = parts[AXES]; break;
+                    case FINEGYRO: x = x + parts[FINE]; break;
+                    case SUNEYE: x = 2; break;
+                    case PROBE: x = x + parts[SHIFT]; break;
+                    case CAMERA: x = 3 + parts[LENS]; break;
+                    default: break;
+                }
+            }
+            return x;
+        }
+
+        int push() {
+            int x = 0;
+            for (int i = 0; i < height && i < layers.length; i++) {
+                switch (layers[i]) {
+                    case ACTUATOR: x = 4 + parts[AXIS]; break;
+                    case WHEEL: x = 2 + parts[MOST] / 100; break;
+                    case COIL: x = parts[POLE] + parts[TURNS] - x; break;
+                    case JET: x = x * (1 + parts[GAS]); break;
+                    case PULSER: x = x / 2 + parts[BEAT]; break;
+                    default: break;
+                }
+            }
+            return x;
         }
 
         boolean hasRoomFor(int more) {
-            return get(ROOM) - get(LEVEL) >= more;
+            return parts[ROOM] - parts[LEVEL] >= more;
         }
 
         void keepByte(int b) {
-            row[Math.floorMod(head + get(LEVEL), LARGEST_ROOM)] = b;
-            grow(LEVEL, 1);
+            row[Math.floorMod(head + parts[LEVEL], LARGEST_ROOM)] = b;
+            parts[LEVEL]++;
         }
 
         int keptByte(int i) {
-            return i >= 0 && i < get(LEVEL) ? row[Math.floorMod(head + i, LARGEST_ROOM)] : NONE;
+            return i >= 0 && i < parts[LEVEL] ? row[Math.floorMod(head + i, LARGEST_ROOM)] : NONE;
         }
 
         void dropFirst() {
             head = Math.floorMod(head + 1, LARGEST_ROOM);
-            grow(LEVEL, -1);
+            parts[LEVEL]--;
         }
     }
 
@@ -1095,7 +1043,7 @@ public final class SmallCraft {
 
         int unitTitled(long title) {
             for (int i = 0; i < count; i++) {
-                if (unitAt(i).title() == title) {
+                if (unitAt(i).title == title) {
                     return i;
                 }
             }
@@ -1105,9 +1053,9 @@ public final class SmallCraft {
         int unitWithAddress(int where) {
             int found = NONE;
             for (int i = 0; i < count; i++) {
-                int base = unitAt(i).get(BASE);
-                boolean holds = where >= base && where - base < unitAt(i).get(WIDTH);
-                if (holds && (found == NONE || base > unitAt(found).get(BASE))) {
+                int base = unitAt(i).parts[BASE];
+                boolean holds = where >= base && where - base < unitAt(i).parts[WIDTH];
+                if (holds && (found == NONE || base > unitAt(found).parts[BASE])) {
                     found = i;
                 }
             }
@@ -1170,8 +1118,8 @@ public final class SmallCraft {
         }
 
         private void judge(Unit u) {
-            boolean odd = Math.floorMod(u.answer(ASK_TEST) - u.get(COLD), 2) == 1;
-            u.set(STUBBORN, odd ? 1 : 0);
+            boolean odd = Math.floorMod(u.test() - u.parts[COLD], 2) == 1;
+            u.parts[STUBBORN] = odd ? 1 : 0;
         }
 
         private int draw() {
@@ -1182,7 +1130,7 @@ public final class SmallCraft {
         private void jot(Unit u, int layer, int x) {
             int spot = 3 * noteCount;
             if (spot >= 0 && spot + 2 < notes.length) {
-                notes[spot] = u.get(NUMBER);
+                notes[spot] = u.parts[NUMBER];
                 notes[spot + 1] = layer;
                 notes[spot + 2] = x;
             }
@@ -1191,241 +1139,266 @@ public final class SmallCraft {
 
         private void make(Unit u, int number) {
             u.clear(number);
-            for (int height = 0; height < u.height(); height++) {
-                makeLayer(u, u.layerAt(height));
-            }
-        }
-
-        private void makeLayer(Unit u, int layer) {
-            switch (layer) {
-                case UNIT: makeUnit(u); break;
-                case STORE: makeStore(u); break;
-                case BATTERY: makeBattery(u); break;
-                case CELLPACK: makeCellpack(u); break;
-                case TANK: makeTank(u); break;
-                case RECORDER: makeRecorder(u); break;
-                case LOAD: makeLoad(u); break;
-                case HEATER: makeHeater(u); break;
-                case THERMO: makeThermo(u); break;
-                case SENSOR: makeSensor(u); break;
-                case GYRO: makeGyro(u); break;
-                case FINEGYRO: makeFinegyro(u); break;
-                case SUNEYE: makeSuneye(u); break;
-                case PROBE: makeProbe(u); break;
-                case CAMERA: makeCamera(u); break;
-                case ACTUATOR: makeActuator(u); break;
-                case WHEEL: makeWheel(u); break;
-                case COIL: makeCoil(u); break;
-                case JET: makeJet(u); break;
-                case PULSER: makePulser(u); break;
-                case RADIO: makeRadio(u); break;
-                case BEACON: makeBeacon(u); break;
-                case SOURCE: makeSource(u); break;
-                case PANEL: makePanel(u); break;
-                case TRACKER: makeTracker(u); break;
-                case GENERATOR: makeGenerator(u); break;
-                case LINK: makeLink(u); break;
-                case PIPE: makePipe(u); break;
-                case HOSE: makeHose(u); break;
-                default: break;
+            for (int i = 0; i < u.height && i < u.layers.length; i++) {
+                switch (u.layers[i]) {
+                    case UNIT: makeUnit(u); break;
+                    case STORE: makeStore(u); break;
+                    case BATTERY: makeBattery(u); break;
+                    case CELLPACK: makeCellpack(u); break;
+                    case TANK: makeTank(u); break;
+                    case RECORDER: makeRecorder(u); break;
+                    case LOAD: makeLoad(u); break;
+                    case HEATER: makeHeater(u); break;
+                    case THERMO: makeThermo(u); break;
+                    case SENSOR: makeSensor(u); break;
+                    case GYRO: makeGyro(u); break;
+                    case FINEGYRO: makeFinegyro(u); break;
+                    case SUNEYE: makeSuneye(u); break;
+                    case PROBE: makeProbe(u); break;
+                    case CAMERA: makeCamera(u); break;
+                    case ACTUATOR: makeActuator(u); break;
+                    case WHEEL: makeWheel(u); break;
+                    case COIL: makeCoil(u); break;
+                    case JET: makeJet(u); break;
+                    case PULSER: makePulser(u); break;
+                    case RADIO: makeRadio(u); break;
+                    case BEACON: makeBeacon(u); break;
+                    case SOURCE: makeSource(u); break;
+                    case PANEL: makePanel(u); break;
+                    case TRACKER: makeTracker(u); break;
+                    case GENERATOR: makeGenerator(u); break;
+                    case LINK: makeLink(u); break;
+                    case PIPE: makePipe(u); break;
+                    case HOSE: makeHose(u); break;
+                    default: break;
+                }
             }
         }
 
         private void makeUnit(Unit u) {
-            u.set(SERIAL, draw());
-            u.set(MASS, u.answer(ASK_MASS));
-            u.set(BASE, address);
-            u.set(WIDTH, Math.max(1, u.answer(ASK_SPAN)));
-            address += u.get(WIDTH);
-            u.set(COLD, u.answer(ASK_TEST));
-            jot(u, UNIT, u.get(COLD));
+            int[] p = u.parts;
+            p[SERIAL] = draw();
+            p[MASS] = u.mass();
+            p[BASE] = address;
+            p[WIDTH] = Math.max(1, u.span());
+            address += p[WIDTH];
+            p[COLD] = u.test();
+            jot(u, UNIT, p[COLD]);
         }
 
         private void makeStore(Unit u) {
-            u.set(SEAL, draw() + u.get(MASS));
-            u.set(SPARE, u.answer(ASK_SPAN));
-            u.set(ROOM, u.a(1));
-            u.set(LEVEL, u.get(ROOM) / 2);
-            jot(u, STORE, u.get(SPARE));
+            int[] p = u.parts;
+            p[SEAL] = draw() + p[MASS];
+            p[SPARE] = u.span();
+            p[ROOM] = u.a1;
+            p[LEVEL] = p[ROOM] / 2;
+            jot(u, STORE, p[SPARE]);
         }
 
         private void makeBattery(Unit u) {
-            u.set(WEAR, Math.floorMod(draw(), 5));
-            u.set(LEVEL, u.get(ROOM) * 3 / 4);
-            u.set(TOP, u.answer(ASK_NEED));
-            jot(u, BATTERY, u.get(TOP));
+            int[] p = u.parts;
+            p[WEAR] = draw() % 5;
+            p[LEVEL] = p[ROOM] * 3 / 4;
+            p[TOP] = u.need();
+            jot(u, BATTERY, p[TOP]);
         }
 
         private void makeCellpack(Unit u) {
-            u.set(PAIRS, 2);
-            u.set(CAP, u.get(TOP) * 2 + u.get(WEAR));
-            u.set(CELLS, u.a(2));
-            u.set(LEVEL, u.get(LEVEL) * u.get(CELLS) / 8);
-            u.set(TOP, u.answer(ASK_NEED));
-            jot(u, CELLPACK, u.get(LEVEL) + u.get(CAP));
+            int[] p = u.parts;
+            p[PAIRS] = 2;
+            p[CAP] = p[TOP] * 2 + p[WEAR];
+            p[CELLS] = u.a2;
+            p[LEVEL] = p[LEVEL] * p[CELLS] / 8;
+            p[TOP] = u.need();
+            jot(u, CELLPACK, p[LEVEL] + p[CAP]);
         }
 
         private void makeTank(Unit u) {
-            u.set(VALVE, Math.floorMod(u.get(BASE), 4));
-            u.set(LEVEL, u.get(ROOM));
-            jot(u, TANK, u.get(VALVE));
+            int[] p = u.parts;
+            p[VALVE] = p[BASE] % 4;
+            p[LEVEL] = p[ROOM];
+            jot(u, TANK, p[VALVE]);
         }
 
         private void makeRecorder(Unit u) {
-            u.set(PAGES, u.get(ROOM) / 10);
-            u.set(FIRST, u.get(LEVEL));
-            u.set(LEVEL, 0);
-            u.set(KEEP, u.answer(ASK_SPAN));
-            jot(u, RECORDER, u.get(KEEP) + u.get(FIRST));
+            int[] p = u.parts;
+            p[PAGES] = p[ROOM] / 10;
+            p[FIRST] = p[LEVEL];
+            p[LEVEL] = 0;
+            p[KEEP] = u.span();
+            jot(u, RECORDER, p[KEEP] + p[FIRST]);
         }
 
         private void makeLoad(Unit u) {
-            u.set(LINE, Math.floorMod(u.get(SERIAL) + draw(), 3));
-            u.set(ON, 0);
-            u.set(WATTS, u.a(1));
-            u.set(SHARE, u.answer(ASK_NEED));
-            reserve += u.get(SHARE);
-            jot(u, LOAD, u.get(SHARE));
+            int[] p = u.parts;
+            p[LINE] = (p[SERIAL] + draw()) % 3;
+            p[ON] = 0;
+            p[WATTS] = u.a1;
+            p[SHARE] = u.need();
+            reserve += p[SHARE];
+            jot(u, LOAD, p[SHARE]);
         }
 
         private void makeHeater(Unit u) {
-            u.set(GLOW, u.answer(ASK_NEED) + 1);
-            jot(u, HEATER, u.get(GLOW));
+            int[] p = u.parts;
+            p[GLOW] = u.need() + 1;
+            jot(u, HEATER, p[GLOW]);
         }
 
         private void makeThermo(Unit u) {
-            u.set(BAND, 5 + u.get(LINE) * 5 + u.get(GLOW) / 8);
-            u.set(OF, u.a(2));
-            u.set(TARGET, u.a(3));
-            jot(u, THERMO, u.answer(ASK_TEST));
+            int[] p = u.parts;
+            p[BAND] = 5 + p[LINE] * 5 + p[GLOW] / 8;
+            p[OF] = u.a2;
+            p[TARGET] = u.a3;
+            jot(u, THERMO, u.test());
         }
 
         private void makeSensor(Unit u) {
-            u.set(NOISE, Math.floorMod(draw(), 7));
-            u.set(CHANNELS, u.answer(ASK_CHANNELS));
-            u.set(EVERY, u.a(2));
-            u.set(READING, 0);
-            jot(u, SENSOR, u.get(CHANNELS));
+            int[] p = u.parts;
+            p[NOISE] = draw() % 7;
+            p[CHANNELS] = u.channels();
+            p[EVERY] = u.a2;
+            p[READING] = 0;
+            jot(u, SENSOR, p[CHANNELS]);
         }
 
         private void makeGyro(Unit u) {
-            u.set(DRIFT, u.get(NOISE) - 3);
-            u.set(AXES, 1);
-            u.set(AXIS, u.a(3));
-            u.set(CHANNELS, u.answer(ASK_CHANNELS));
-            jot(u, GYRO, u.get(DRIFT));
+            int[] p = u.parts;
+            p[DRIFT] = p[NOISE] - 3;
+            p[AXES] = 1;
+            p[AXIS] = u.a3;
+            p[CHANNELS] = u.channels();
+            jot(u, GYRO, p[DRIFT]);
         }
 
         private void makeFinegyro(Unit u) {
-            u.set(DRIFT, u.get(DRIFT) / 2);
-            u.set(FINE, Math.floorMod(draw(), 4) + 1);
-            u.set(AXES, 3);
-            u.set(CHANNELS, u.answer(ASK_CHANNELS));
-            jot(u, FINEGYRO, u.get(CHANNELS));
+            int[] p = u.parts;
+            p[DRIFT] = p[DRIFT] / 2;
+            p[FINE] = draw() % 4 + 1;
+            p[AXES] = 3;
+            p[CHANNELS] = u.channels();
+            jot(u, FINEGYRO, p[CHANNELS]);
         }
 
         private void makeSuneye(Unit u) {
-            u.set(WIDE, 600 + u.get(NOISE) * 40);
-            jot(u, SUNEYE, u.get(WIDE));
+            int[] p = u.parts;
+            p[WIDE] = 600 + p[NOISE] * 40;
+            jot(u, SUNEYE, p[WIDE]);
         }
 
         private void makeProbe(Unit u) {
-            u.set(SHIFT, u.get(NOISE) - 2);
-            u.set(OF, u.a(3));
-            jot(u, PROBE, u.get(SHIFT));
+            int[] p = u.parts;
+            p[SHIFT] = p[NOISE] - 2;
+            p[OF] = u.a3;
+            jot(u, PROBE, p[SHIFT]);
         }
 
         private void makeCamera(Unit u) {
-            u.set(LENS, u.get(CHANNELS) + Math.floorMod(draw(), 3));
-            u.set(OF, u.a(3));
-            u.set(SHOTS, 0);
-            jot(u, CAMERA, u.get(LENS));
+            int[] p = u.parts;
+            p[LENS] = p[CHANNELS] + draw() % 3;
+            p[OF] = u.a3;
+            p[SHOTS] = 0;
+            jot(u, CAMERA, p[LENS]);
         }
 
         private void makeActuator(Unit u) {
-            u.set(KICK, u.answer(ASK_PUSH));
-            u.set(AXIS, u.a(2));
-            u.set(PUSH, u.answer(ASK_PUSH));
-            jot(u, ACTUATOR, u.get(PUSH) - u.get(KICK));
+            int[] p = u.parts;
+            p[KICK] = u.push();
+            p[AXIS] = u.a2;
+            p[PUSH] = u.push();
+            jot(u, ACTUATOR, p[PUSH] - p[KICK]);
         }
 
         private void makeWheel(Unit u) {
-            u.set(MOST, 200 + u.get(SERIAL));
-            u.set(SPEED, 0);
-            jot(u, WHEEL, u.get(MOST) - u.get(PUSH));
+            int[] p = u.parts;
+            p[MOST] = 200 + p[SERIAL];
+            p[SPEED] = 0;
+            jot(u, WHEEL, p[MOST] - p[PUSH]);
         }
 
         private void makeCoil(Unit u) {
-            u.set(TURNS, u.get(KICK) * 2);
-            u.set(PUSH, u.answer(ASK_PUSH));
-            jot(u, COIL, u.get(PUSH));
+            int[] p = u.parts;
+            p[TURNS] = p[KICK] * 2;
+            p[PUSH] = u.push();
+            jot(u, COIL, p[PUSH]);
         }
 
         private void makeJet(Unit u) {
-            u.set(GAS, Math.floorMod(draw(), 3) + 1);
-            u.set(OF, u.a(3));
-            u.set(SHOTS, 0);
-            jot(u, JET, u.answer(ASK_PUSH));
+            int[] p = u.parts;
+            p[GAS] = draw() % 3 + 1;
+            p[OF] = u.a3;
+            p[SHOTS] = 0;
+            jot(u, JET, u.push());
         }
 
         private void makePulser(Unit u) {
-            u.set(BEAT, u.get(GAS) + 1);
-            u.set(PUSH, u.answer(ASK_PUSH));
-            jot(u, PULSER, u.get(PUSH));
+            int[] p = u.parts;
+            p[BEAT] = p[GAS] + 1;
+            p[PUSH] = u.push();
+            jot(u, PULSER, p[PUSH]);
         }
 
         private void makeRadio(Unit u) {
-            u.set(TONE, u.get(BASE) * 2 + 1);
-            u.set(RATE, u.a(2));
-            u.set(SENT, 0);
-            jot(u, RADIO, u.get(TONE));
+            int[] p = u.parts;
+            p[TONE] = p[BASE] * 2 + 1;
+            p[RATE] = u.a2;
+            p[SENT] = 0;
+            jot(u, RADIO, p[TONE]);
         }
 
         private void makeBeacon(Unit u) {
-            u.set(EVERY, 10 + Math.floorMod(u.get(TONE), 7));
-            u.set(RATE, u.get(RATE) / 2 + 1);
-            jot(u, BEACON, u.get(RATE));
+            int[] p = u.parts;
+            p[EVERY] = 10 + p[TONE] % 7;
+            p[RATE] = p[RATE] / 2 + 1;
+            jot(u, BEACON, p[RATE]);
         }
 
         private void makeSource(Unit u) {
-            u.set(WIRE, Math.floorMod(draw(), 3));
-            u.set(MOST, u.a(1));
-            jot(u, SOURCE, u.answer(ASK_MASS));
+            int[] p = u.parts;
+            p[WIRE] = draw() % 3;
+            p[MOST] = u.a1;
+            jot(u, SOURCE, u.mass());
         }
 
         private void makePanel(Unit u) {
-            u.set(TURN, u.get(WIRE) * 10);
-            u.set(FACE, u.a(2));
-            jot(u, PANEL, u.get(TURN) + u.get(FACE));
+            int[] p = u.parts;
+            p[TURN] = p[WIRE] * 10;
+            p[FACE] = u.a2;
+            jot(u, PANEL, p[TURN] + p[FACE]);
         }
 
         private void makeTracker(Unit u) {
-            u.set(AT, Math.floorMod(u.get(FACE) * 900 + u.get(TURN), CIRCLE));
-            jot(u, TRACKER, u.get(AT));
+            int[] p = u.parts;
+            p[AT] = (p[FACE] * 900 + p[TURN]) % CIRCLE;
+            jot(u, TRACKER, p[AT]);
         }
 
         private void makeGenerator(Unit u) {
-            u.set(ROD, u.get(MASS) * 2 + u.get(WIRE));
-            u.set(OF, u.a(2));
-            jot(u, GENERATOR, u.get(ROD));
+            int[] p = u.parts;
+            p[ROD] = p[MASS] * 2 + p[WIRE];
+            p[OF] = u.a2;
+            jot(u, GENERATOR, p[ROD]);
         }
 
         private void makeLink(Unit u) {
-            u.set(TWIST, u.answer(ASK_SPAN) + Math.floorMod(draw(), 2));
-            u.set(ONE, u.a(1));
-            u.set(OTHER, u.a(2));
-            jot(u, LINK, u.get(TWIST));
+            int[] p = u.parts;
+            p[TWIST] = u.span() + draw() % 2;
+            p[ONE] = u.a1;
+            p[OTHER] = u.a2;
+            jot(u, LINK, p[TWIST]);
         }
 
         private void makePipe(Unit u) {
-            u.set(FLOW, u.get(TWIST) + 2);
-            jot(u, PIPE, u.get(FLOW));
+            int[] p = u.parts;
+            p[FLOW] = p[TWIST] + 2;
+            jot(u, PIPE, p[FLOW]);
         }
 
         private void makeHose(Unit u) {
-            u.set(FLOW, u.get(TWIST));
-            u.grow(FLOW, u.a(3));
-            jot(u, HOSE, u.get(FLOW) + u.get(ONE));
+            int[] p = u.parts;
+            p[FLOW] = p[TWIST];
+            p[FLOW] += u.a3;
+            jot(u, HOSE, p[FLOW] + p[ONE]);
         }
     }
 
@@ -1507,6 +1480,7 @@ public final class SmallCraft {
             count = 0;
         }
 
+        /** The item with a number; one that is never looked at, if there is none such. */
         Item itemAt(int i) {
             return i >= 0 && i < count && i < items.length ? items[i] : nothing;
         }
@@ -1544,10 +1518,10 @@ public final class SmallCraft {
             Item item = items[count];
             item.clear();
             boolean good;
-            if (isAt) {
-                good = readTime(text, item, Item.WHEN_AT, 0);
-            } else if (isEach) {
-                good = readTime(text, item, Item.WHEN_EACH, 1);
+            if (isAt || isEach) {
+                item.when = isAt ? Item.WHEN_AT : Item.WHEN_EACH;
+                good = text.takeNumber(isAt ? 0 : 1, 9999);
+                item.bound = text.number();
             } else {
                 good = readTerm(text, yard, item) && readBound(text, item);
             }
@@ -1558,13 +1532,55 @@ public final class SmallCraft {
             return true;
         }
 
-        private boolean readTime(Text text, Item item, int when, int least) {
-            if (!text.takeNumber(least, 9999)) {
-                return false;
+        private boolean readTerm(Text text, Yard yard, Item item) {
+            text.next();
+            item.term = termOf(text);
+            switch (item.term) {
+                case Item.TERM_LEVEL:
+                    item.subject = readName(text, yard, STORE);
+                    return item.subject != NONE;
+                case Item.TERM_HEAT:
+                    item.subject = readName(text, yard, UNIT);
+                    return item.subject != NONE;
+                case Item.TERM_SPEED:
+                    item.subject = readName(text, yard, WHEEL);
+                    return item.subject != NONE;
+                case Item.TERM_READING:
+                    item.subject = readName(text, yard, SENSOR);
+                    return item.subject != NONE;
+                case Item.TERM_LIGHT:
+                    return true;
+                case Item.TERM_ANGLE:
+                case Item.TERM_RATE:
+                    boolean good = text.takeNumber(0, AXIS_COUNT - 1);
+                    item.subject = text.number();
+                    return good;
+                default:
+                    return text.refuse(BAD_TOKEN);
             }
-            item.when = when;
-            item.bound = text.number();
-            return true;
+        }
+
+        /** The term whose word was read last; NONE if it is none. */
+        private static int termOf(Text text) {
+            if (text.isWord("level")) {
+                return Item.TERM_LEVEL;
+            }
+            if (text.isWord("heat")) {
+                return Item.TERM_HEAT;
+            }
+            if (text.isWord("speed")) {
+                return Item.TERM_SPEED;
+            }
+            if (text.isWord("reading")) {
+                return Item.TERM_READING;
+            }
+            if (text.isWord("light")) {
+                return Item.TERM_LIGHT;
+            }
+            if (text.isWord("angle")) {
+                return Item.TERM_ANGLE;
+            }
+            return text.isWord("rate") ? Item.TERM_RATE : NONE;
         }
 
         private boolean readBound(Text text, Item item) {
@@ -1573,58 +1589,16 @@ public final class SmallCraft {
                 return text.refuse(BAD_TOKEN);
             }
             item.when = text.isSign('<') ? Item.WHEN_BELOW : Item.WHEN_ABOVE;
-            if (!text.takeNumber()) {
-                return false;
-            }
+            boolean good = text.takeNumber();
             item.bound = text.number();
-            return true;
-        }
-
-        private boolean readTerm(Text text, Yard yard, Item item) {
-            text.next();
-            if (text.isWord("level")) {
-                return readUnitTerm(text, yard, item, Item.TERM_LEVEL, STORE);
-            }
-            if (text.isWord("heat")) {
-                return readUnitTerm(text, yard, item, Item.TERM_HEAT, UNIT);
-            }
-            if (text.isWord("speed")) {
-                return readUnitTerm(text, yard, item, Item.TERM_SPEED, WHEEL);
-            }
-            if (text.isWord("reading")) {
-                return readUnitTerm(text, yard, item, Item.TERM_READING, SENSOR);
-            }
-            if (text.isWord("light")) {
-                item.term = Item.TERM_LIGHT;
-                return true;
-            }
-            if (text.isWord("angle")) {
-                return readAxisTerm(text, item, Item.TERM_ANGLE);
-            }
-            if (text.isWord("rate")) {
-                return readAxisTerm(text, item, Item.TERM_RATE);
-            }
-            return text.refuse(BAD_TOKEN);
-        }
-
-        private boolean readUnitTerm(Text text, Yard yard, Item item, int term, int layer) {
-            item.term = term;
-            item.subject = readName(text, yard, layer);
-            return item.subject != NONE;
-        }
-
-        private boolean readAxisTerm(Text text, Item item, int term) {
-            item.term = term;
-            if (!text.takeNumber(0, AXIS_COUNT - 1)) {
-                return false;
-            }
-            item.subject = text.number();
-            return true;
+            return good;
         }
 
         /** The number of the unit that is named next; NONE, and a fault, if there is none of that layer. */
         private int readName(Text text, Yard yard, int layer) {
-            if (!text.takeWord()) {
+            text.next();
+            if (!text.isAnyWord()) {
+                text.refuse(BAD_TOKEN);
                 return NONE;
             }
             int found = yard.unitTitled(text.wordRead());
@@ -1637,51 +1611,57 @@ public final class SmallCraft {
 
         private boolean readAct(Text text, Yard yard, Item item) {
             text.next();
+            item.act = actOf(text);
+            boolean good;
+            switch (item.act) {
+                case ACT_ON:
+                case ACT_OFF:
+                case ACT_RESTART:
+                    item.a = readName(text, yard, UNIT);
+                    return item.a != NONE;
+                case ACT_WIPE:
+                    item.a = readName(text, yard, RECORDER);
+                    return item.a != NONE;
+                case ACT_MODE:
+                    good = text.takeNumber(0, 3);
+                    item.a = text.number();
+                    return good;
+                case ACT_STOP:
+                    good = text.takeNumber(0, MOST_ITEMS - 1);
+                    item.a = text.number();
+                    return good;
+                case ACT_AIM:
+                    good = text.takeNumber(0, AXIS_COUNT - 1);
+                    item.a = text.number();
+                    good = good && text.takeNumber(0, CIRCLE - 1);
+                    item.b = text.number();
+                    return good;
+                default:
+                    return text.refuse(BAD_TOKEN);
+            }
+        }
+
+        /** The act whose word was read last; NONE if it is none. */
+        private static int actOf(Text text) {
             if (text.isWord("on")) {
-                return readUnitAct(text, yard, item, ACT_ON, UNIT);
+                return ACT_ON;
             }
             if (text.isWord("off")) {
-                return readUnitAct(text, yard, item, ACT_OFF, UNIT);
+                return ACT_OFF;
             }
             if (text.isWord("mode")) {
-                return readNumberAct(text, item, ACT_MODE, 3);
+                return ACT_MODE;
             }
             if (text.isWord("aim")) {
-                return readNumberAct(text, item, ACT_AIM, AXIS_COUNT - 1) && readAngle(text, item);
+                return ACT_AIM;
             }
             if (text.isWord("restart")) {
-                return readUnitAct(text, yard, item, ACT_RESTART, UNIT);
+                return ACT_RESTART;
             }
             if (text.isWord("wipe")) {
-                return readUnitAct(text, yard, item, ACT_WIPE, RECORDER);
+                return ACT_WIPE;
             }
-            if (text.isWord("stop")) {
-                return readNumberAct(text, item, ACT_STOP, MOST_ITEMS - 1);
-            }
-            return text.refuse(BAD_TOKEN);
-        }
-
-        private boolean readUnitAct(Text text, Yard yard, Item item, int act, int layer) {
-            item.act = act;
-            item.a = readName(text, yard, layer);
-            return item.a != NONE;
-        }
-
-        private boolean readNumberAct(Text text, Item item, int act, int greatest) {
-            item.act = act;
-            if (!text.takeNumber(0, greatest)) {
-                return false;
-            }
-            item.a = text.number();
-            return true;
-        }
-
-        private boolean readAngle(Text text, Item item) {
-            if (!text.takeNumber(0, CIRCLE - 1)) {
-                return false;
-            }
-            item.b = text.number();
-            return true;
+            return text.isWord("stop") ? ACT_STOP : NONE;
         }
     }
 
@@ -1758,7 +1738,7 @@ public final class SmallCraft {
             for (int i = 0; i < yard.size(); i++) {
                 Unit u = yard.unitAt(i);
                 if (u.isOn(SUNEYE)) {
-                    return u.get(READING) == BLIND ? 200 : u.get(READING);
+                    return u.parts[READING] == BLIND ? 200 : u.parts[READING];
                 }
             }
             return 200;
@@ -1767,8 +1747,8 @@ public final class SmallCraft {
         private int measuredRate(int x) {
             for (int i = 0; i < yard.size(); i++) {
                 Unit u = yard.unitAt(i);
-                if (u.isOn(GYRO) && u.get(AXIS) == x) {
-                    return u.get(READING);
+                if (u.isOn(GYRO) && u.parts[AXIS] == x) {
+                    return u.parts[READING];
                 }
             }
             return 0;
@@ -1779,12 +1759,12 @@ public final class SmallCraft {
             int left = wish;
             for (int i = 0; i < yard.size(); i++) {
                 Unit u = yard.unitAt(i);
-                if (u.isOn(WHEEL) && u.get(AXIS) == x) {
-                    int speed = u.get(SPEED);
-                    int most = u.get(MOST);
-                    int push = u.get(PUSH);
+                if (u.isOn(WHEEL) && u.parts[AXIS] == x) {
+                    int speed = u.parts[SPEED];
+                    int most = u.parts[MOST];
+                    int push = u.parts[PUSH];
                     int c = limit(speed + limit(left, 0 - push, push), 0 - most, most) - speed;
-                    u.grow(SPEED, c);
+                    u.parts[SPEED] += c;
                     speedUp(x, c);
                     left -= c;
                 }
@@ -1796,7 +1776,7 @@ public final class SmallCraft {
             int left = wish;
             for (int i = 0; i < yard.size(); i++) {
                 Unit u = yard.unitAt(i);
-                if (u.isOn(COIL) && u.get(AXIS) == x && u.get(PUSH) > 0) {
+                if (u.isOn(COIL) && u.parts[AXIS] == x && u.parts[PUSH] > 0) {
                     int c = limit(left, -1, 1);
                     speedUp(x, c);
                     left -= c;
@@ -1807,8 +1787,8 @@ public final class SmallCraft {
         private void unloadWheels(int x, int t) {
             for (int i = 0; i < yard.size(); i++) {
                 Unit wheel = yard.unitAt(i);
-                boolean turns = wheel.isOn(WHEEL) && wheel.get(AXIS) == x;
-                if (turns && 4 * Math.abs(wheel.get(SPEED)) > wheel.get(MOST)) {
+                boolean turns = wheel.isOn(WHEEL) && wheel.parts[AXIS] == x;
+                if (turns && 4 * Math.abs(wheel.parts[SPEED]) > wheel.parts[MOST]) {
                     int jet = readyJet(x, t);
                     if (jet != NONE) {
                         unload(wheel, yard.unitAt(jet));
@@ -1820,7 +1800,7 @@ public final class SmallCraft {
         private int readyJet(int x, int t) {
             for (int i = 0; i < yard.size(); i++) {
                 Unit u = yard.unitAt(i);
-                if (u.isOn(JET) && u.get(AXIS) == x && hasGas(u) && (!u.is(PULSER) || isMultiple(t, u.get(BEAT)))) {
+                if (u.isOn(JET) && u.parts[AXIS] == x && hasGas(u) && (!u.is(PULSER) || isMultiple(t, u.parts[BEAT]))) {
                     return i;
                 }
             }
@@ -1828,16 +1808,16 @@ public final class SmallCraft {
         }
 
         private boolean hasGas(Unit jet) {
-            Unit tank = yard.unitAt(jet.get(OF));
-            return tank.isWhole(TANK) && tank.get(LEVEL) >= jet.get(GAS);
+            Unit tank = yard.unitAt(jet.parts[OF]);
+            return tank.isWhole(TANK) && tank.parts[LEVEL] >= jet.parts[GAS];
         }
 
         private void unload(Unit wheel, Unit jet) {
-            int speed = wheel.get(SPEED);
-            int less = limit(jet.get(PUSH), 0, Math.abs(speed));
-            wheel.set(SPEED, speed > 0 ? speed - less : speed + less);
-            yard.unitAt(jet.get(OF)).grow(LEVEL, 0 - jet.get(GAS));
-            jet.grow(SHOTS, 1);
+            int speed = wheel.parts[SPEED];
+            int less = limit(jet.parts[PUSH], 0, Math.abs(speed));
+            wheel.parts[SPEED] = speed > 0 ? speed - less : speed + less;
+            yard.unitAt(jet.parts[OF]).parts[LEVEL] -= jet.parts[GAS];
+            jet.parts[SHOTS]++;
         }
 
         void turn(int t) {
@@ -1901,7 +1881,7 @@ public final class SmallCraft {
             for (int i = 0; i < yard.size(); i++) {
                 Unit u = yard.unitAt(i);
                 if (u.isOn(LOAD) || u.isWhole(SOURCE)) {
-                    demand += u.answer(ASK_NEED);
+                    demand += u.need();
                 }
             }
             if (balance(supply - demand) < 0) {
@@ -1911,27 +1891,27 @@ public final class SmallCraft {
         }
 
         private int burn(Unit generator, int t) {
-            Unit tank = yard.unitAt(generator.get(OF));
-            if (!tank.isWhole(TANK) || tank.get(LEVEL) <= 0) {
+            Unit tank = yard.unitAt(generator.parts[OF]);
+            if (!tank.isWhole(TANK) || tank.parts[LEVEL] <= 0) {
                 return 0;
             }
             if (isMultiple(t, 8)) {
-                tank.grow(LEVEL, -1);
+                tank.parts[LEVEL]--;
             }
-            return generator.get(MOST);
+            return generator.parts[MOST];
         }
 
         private int shine(Unit panel, int light, int angle) {
-            int slant = off(angle, 900 * panel.get(FACE));
+            int slant = off(angle, 900 * panel.parts[FACE]);
             if (panel.is(TRACKER)) {
-                int at = panel.get(AT);
-                int step = panel.get(STEP);
-                panel.set(AT, Math.floorMod(at + limit(off(at, angle), 0 - step, step), CIRCLE));
-                slant = off(angle, panel.get(AT));
+                int at = panel.parts[AT];
+                int step = panel.parts[STEP];
+                panel.parts[AT] = Math.floorMod(at + limit(off(at, angle), 0 - step, step), CIRCLE);
+                slant = off(angle, panel.parts[AT]);
             }
             int k = Math.abs(slant) / 120;
             int share = k >= 0 && k < SHINE.length ? SHINE[k] : 0;
-            return panel.get(MOST) * light / 100 * share / 100;
+            return panel.parts[MOST] * light / 100 * share / 100;
         }
 
         /** Gives what is left over to the batteries, or takes from them what is missing: what remains of it. */
@@ -1940,10 +1920,10 @@ public final class SmallCraft {
             for (int i = 0; i < yard.size(); i++) {
                 Unit u = yard.unitAt(i);
                 if (u.isWhole(BATTERY)) {
-                    int space = net > 0 ? u.get(ROOM) - u.get(LEVEL) : u.get(LEVEL);
-                    int amount = Math.max(0, Math.min(Math.abs(net), Math.min(u.get(TOP), space)));
+                    int space = net > 0 ? u.parts[ROOM] - u.parts[LEVEL] : u.parts[LEVEL];
+                    int amount = Math.max(0, Math.min(Math.abs(net), Math.min(u.parts[TOP], space)));
                     int change = net > 0 ? amount : 0 - amount;
-                    u.grow(LEVEL, change);
+                    u.parts[LEVEL] += change;
                     net -= change;
                 }
             }
@@ -1954,12 +1934,12 @@ public final class SmallCraft {
             int worst = NONE;
             for (int i = 0; i < yard.size(); i++) {
                 Unit u = yard.unitAt(i);
-                if (u.isOn(LOAD) && (worst == NONE || u.get(LINE) >= yard.unitAt(worst).get(LINE))) {
+                if (u.isOn(LOAD) && (worst == NONE || u.parts[LINE] >= yard.unitAt(worst).parts[LINE])) {
                     worst = i;
                 }
             }
             if (worst != NONE) {
-                yard.unitAt(worst).set(ON, 0);
+                yard.unitAt(worst).parts[ON] = 0;
             }
         }
 
@@ -1967,22 +1947,22 @@ public final class SmallCraft {
             for (int i = 0; i < yard.size(); i++) {
                 Unit hose = yard.unitAt(i);
                 if (hose.isWhole(HOSE)) {
-                    Unit one = yard.unitAt(hose.get(ONE));
-                    Unit other = yard.unitAt(hose.get(OTHER));
+                    Unit one = yard.unitAt(hose.parts[ONE]);
+                    Unit other = yard.unitAt(hose.parts[OTHER]);
                     if (one.isWhole(TANK) && other.isWhole(TANK)) {
-                        boolean forth = one.get(LEVEL) >= other.get(LEVEL);
-                        pour(hose.get(FLOW), forth ? one : other, forth ? other : one);
+                        boolean forth = one.parts[LEVEL] >= other.parts[LEVEL];
+                        pour(hose.parts[FLOW], forth ? one : other, forth ? other : one);
                     }
                 }
             }
         }
 
         private void pour(int flow, Unit higher, Unit lower) {
-            int half = (higher.get(LEVEL) - lower.get(LEVEL)) / 2;
-            int space = lower.get(ROOM) - lower.get(LEVEL);
-            int amount = Math.min(Math.min(flow, higher.get(LEVEL)), Math.min(space, half));
-            higher.grow(LEVEL, 0 - amount);
-            lower.grow(LEVEL, amount);
+            int half = (higher.parts[LEVEL] - lower.parts[LEVEL]) / 2;
+            int space = lower.parts[ROOM] - lower.parts[LEVEL];
+            int amount = Math.min(Math.min(flow, higher.parts[LEVEL]), Math.min(space, half));
+            higher.parts[LEVEL] -= amount;
+            lower.parts[LEVEL] += amount;
         }
 
         void warm(int light) {
@@ -1995,16 +1975,16 @@ public final class SmallCraft {
                 }
             }
             for (int i = 0; i < yard.size() && i < heats.length; i++) {
-                yard.unitAt(i).set(HEAT, limit(heats[i], -500, 1500));
+                yard.unitAt(i).parts[HEAT] = limit(heats[i], -500, 1500);
             }
             breakUnits();
             switchThermos();
         }
 
         private int heatAlone(Unit u, int light) {
-            int heat = u.get(HEAT);
-            int mass = u.answer(ASK_MASS);
-            int work = u.isOn(LOAD) ? u.answer(ASK_NEED) : 0;
+            int heat = u.parts[HEAT];
+            int mass = u.mass();
+            int work = u.isOn(LOAD) ? u.need() : 0;
             if (u.is(HEATER)) {
                 work = 4 * work;
             }
@@ -2018,16 +1998,16 @@ public final class SmallCraft {
             if (!yard.has(neighbour)) {
                 return 0;
             }
-            return (yard.unitAt(neighbour).get(HEAT) - yard.unitAt(i).get(HEAT)) / 16;
+            return (yard.unitAt(neighbour).parts[HEAT] - yard.unitAt(i).parts[HEAT]) / 16;
         }
 
         private void leadHeat(Unit pipe) {
-            int one = pipe.get(ONE);
-            int other = pipe.get(OTHER);
+            int one = pipe.parts[ONE];
+            int other = pipe.parts[OTHER];
             if (one != other) {
-                int difference = yard.unitAt(other).get(HEAT) - yard.unitAt(one).get(HEAT);
-                addHeat(one, difference * pipe.get(FLOW) / 64);
-                addHeat(other, (0 - difference) * pipe.get(FLOW) / 64);
+                int difference = yard.unitAt(other).parts[HEAT] - yard.unitAt(one).parts[HEAT];
+                addHeat(one, difference * pipe.parts[FLOW] / 64);
+                addHeat(other, (0 - difference) * pipe.parts[FLOW] / 64);
             }
         }
 
@@ -2040,9 +2020,9 @@ public final class SmallCraft {
         private void breakUnits() {
             for (int i = 0; i < yard.size(); i++) {
                 Unit u = yard.unitAt(i);
-                if (u.get(BROKEN) == 0 && !within(u.get(HEAT), -200, 900)) {
-                    u.set(BROKEN, 1);
-                    u.set(ON, 0);
+                if (u.parts[BROKEN] == 0 && !within(u.parts[HEAT], -200, 900)) {
+                    u.parts[BROKEN] = 1;
+                    u.parts[ON] = 0;
                     failures++;
                 }
             }
@@ -2052,11 +2032,11 @@ public final class SmallCraft {
             for (int i = 0; i < yard.size(); i++) {
                 Unit u = yard.unitAt(i);
                 if (u.isWhole(THERMO)) {
-                    int heat = yard.unitAt(u.get(OF)).get(HEAT);
-                    if (heat < u.get(TARGET) - u.get(BAND)) {
-                        u.set(ON, 1);
-                    } else if (heat > u.get(TARGET) + u.get(BAND)) {
-                        u.set(ON, 0);
+                    int heat = yard.unitAt(u.parts[OF]).parts[HEAT];
+                    if (heat < u.parts[TARGET] - u.parts[BAND]) {
+                        u.parts[ON] = 1;
+                    } else if (heat > u.parts[TARGET] + u.parts[BAND]) {
+                        u.parts[ON] = 0;
                     }
                 }
             }
@@ -2237,13 +2217,13 @@ public final class SmallCraft {
         private int valueOf(Item item) {
             switch (item.term) {
                 case Item.TERM_LEVEL:
-                    return yard.unitAt(item.subject).get(LEVEL);
+                    return yard.unitAt(item.subject).parts[LEVEL];
                 case Item.TERM_HEAT:
-                    return yard.unitAt(item.subject).get(HEAT);
+                    return yard.unitAt(item.subject).parts[HEAT];
                 case Item.TERM_SPEED:
-                    return yard.unitAt(item.subject).get(SPEED);
+                    return yard.unitAt(item.subject).parts[SPEED];
                 case Item.TERM_READING:
-                    return yard.unitAt(item.subject).get(READING);
+                    return yard.unitAt(item.subject).parts[READING];
                 case Item.TERM_ANGLE:
                     return steering.angle(item.subject);
                 case Item.TERM_RATE:
@@ -2255,7 +2235,17 @@ public final class SmallCraft {
 
         /** Does an act, whose numbers were looked at before: whether it is done, not refused. */
         boolean perform(int act, int a, int b) {
-            boolean good = carryOut(act, a, b);
+            boolean good = true;
+            switch (act) {
+                case ACT_ON: good = switchOn(yard.unitAt(a)); break;
+                case ACT_OFF: good = switchOff(yard.unitAt(a)); break;
+                case ACT_MODE: mode = a; break;
+                case ACT_AIM: steering.setAim(a, b); break;
+                case ACT_RESTART: good = yard.restart(a); break;
+                case ACT_WIPE: yard.unitAt(a).parts[LEVEL] = 0; break;
+                case ACT_STOP: plan.stop(a); break;
+                default: good = false; break;
+            }
             if (good) {
                 actsDone++;
             } else {
@@ -2264,40 +2254,15 @@ public final class SmallCraft {
             return good;
         }
 
-        private boolean carryOut(int act, int a, int b) {
-            switch (act) {
-                case ACT_ON:
-                    return switchOn(yard.unitAt(a));
-                case ACT_OFF:
-                    return switchOff(yard.unitAt(a));
-                case ACT_MODE:
-                    mode = a;
-                    return true;
-                case ACT_AIM:
-                    steering.setAim(a, b);
-                    return true;
-                case ACT_RESTART:
-                    return yard.restart(a);
-                case ACT_WIPE:
-                    yard.unitAt(a).set(LEVEL, 0);
-                    return true;
-                case ACT_STOP:
-                    plan.stop(a);
-                    return true;
-                default:
-                    return false;
-            }
-        }
-
         private static boolean switchOn(Unit u) {
             if (!u.isWhole(LOAD)) {
                 return false;
             }
-            if (u.get(STUBBORN) == 1) {
-                u.set(STUBBORN, 0);
+            if (u.parts[STUBBORN] == 1) {
+                u.parts[STUBBORN] = 0;
                 return false;
             }
-            u.set(ON, 1);
+            u.parts[ON] = 1;
             return true;
         }
 
@@ -2305,14 +2270,14 @@ public final class SmallCraft {
             if (!u.is(LOAD)) {
                 return false;
             }
-            u.set(ON, 0);
+            u.parts[ON] = 0;
             return true;
         }
 
         private void takeReadings(int t) {
             for (int i = 0; i < yard.size(); i++) {
                 Unit u = yard.unitAt(i);
-                if (u.isOn(SENSOR) && isMultiple(t, u.get(EVERY))) {
+                if (u.isOn(SENSOR) && isMultiple(t, u.parts[EVERY])) {
                     takeReading(u, t);
                 }
             }
@@ -2320,34 +2285,34 @@ public final class SmallCraft {
 
         private void takeReading(Unit u, int t) {
             if (u.is(GYRO)) {
-                u.set(READING, steering.rate(u.get(AXIS)) + u.get(DRIFT));
+                u.parts[READING] = steering.rate(u.parts[AXIS]) + u.parts[DRIFT];
             } else if (u.is(SUNEYE)) {
                 int e = off(steering.angle(0), 0);
-                boolean seen = light > 0 && Math.abs(e) < u.get(WIDE);
-                u.set(READING, seen ? e + u.get(NOISE) : BLIND);
+                boolean seen = light > 0 && Math.abs(e) < u.parts[WIDE];
+                u.parts[READING] = seen ? e + u.parts[NOISE] : BLIND;
             } else if (u.is(PROBE)) {
-                u.set(READING, yard.unitAt(u.get(OF)).get(HEAT) + u.get(SHIFT));
+                u.parts[READING] = yard.unitAt(u.parts[OF]).parts[HEAT] + u.parts[SHIFT];
             } else if (u.is(CAMERA)) {
-                u.set(READING, Math.floorMod(t + u.get(LENS) * light, 256));
-                keepPicture(u, yard.unitAt(u.get(OF)));
+                u.parts[READING] = Math.floorMod(t + u.parts[LENS] * light, 256);
+                keepPicture(u, yard.unitAt(u.parts[OF]));
             }
         }
 
         private static void keepPicture(Unit camera, Unit recorder) {
-            int lens = camera.get(LENS);
+            int lens = camera.parts[LENS];
             if (recorder.isWhole(RECORDER) && recorder.hasRoomFor(lens)) {
                 for (int k = 0; k < lens; k++) {
-                    recorder.keepByte(Math.floorMod(camera.get(READING) + k, 256));
+                    recorder.keepByte(Math.floorMod(camera.parts[READING] + k, 256));
                 }
-                camera.grow(SHOTS, 1);
+                camera.parts[SHOTS]++;
             }
         }
 
         private void saveLine() {
             for (int i = 0; i < yard.size(); i++) {
                 Unit u = yard.unitAt(i);
-                if (u.isOn(LOAD) && u.get(LINE) == 2 && !u.is(THERMO)) {
-                    u.set(ON, 0);
+                if (u.isOn(LOAD) && u.parts[LINE] == 2 && !u.is(THERMO)) {
+                    u.parts[ON] = 0;
                 }
             }
         }
@@ -2388,8 +2353,8 @@ public final class SmallCraft {
             for (int i = 0; i < yard.size(); i++) {
                 Unit u = yard.unitAt(i);
                 if (u.is(BATTERY)) {
-                    levels += u.get(LEVEL);
-                    rooms += u.get(ROOM);
+                    levels += u.parts[LEVEL];
+                    rooms += u.parts[ROOM];
                 }
             }
             return rooms > 0 ? 100 * levels / rooms : 0;
@@ -2398,7 +2363,7 @@ public final class SmallCraft {
         private int countWith(int layer, int what) {
             int found = 0;
             for (int i = 0; i < yard.size(); i++) {
-                if (yard.unitAt(i).is(layer) && yard.unitAt(i).get(what) == 1) {
+                if (yard.unitAt(i).is(layer) && yard.unitAt(i).value(what) == 1) {
                     found++;
                 }
             }
@@ -2421,12 +2386,12 @@ public final class SmallCraft {
             for (int i = 0; i < yard.size(); i++) {
                 Unit u = yard.unitAt(i);
                 if (u.isOn(RADIO)) {
-                    if (u.is(BEACON) && isMultiple(t, u.get(EVERY))) {
+                    if (u.is(BEACON) && isMultiple(t, u.parts[EVERY])) {
                         downlink.send(48 + mode);
-                        u.grow(SENT, 1);
+                        u.parts[SENT]++;
                     }
                     if (inView) {
-                        u.grow(SENT, sendKept(u.get(RATE)));
+                        u.parts[SENT] += sendKept(u.parts[RATE]);
                     }
                 }
             }
@@ -2438,7 +2403,7 @@ public final class SmallCraft {
             for (int i = 0; i < yard.size(); i++) {
                 Unit u = yard.unitAt(i);
                 if (u.isWhole(RECORDER)) {
-                    for (; sent < most && u.get(LEVEL) > 0; sent++) {
+                    for (; sent < most && u.parts[LEVEL] > 0; sent++) {
                         downlink.send(u.keptByte(0));
                         u.dropFirst();
                     }
