@@ -180,6 +180,31 @@ public final class FlightTest {
         Check.due("a suneye that looks away", eye.part(0, 32), 9999);
     }
 
+    /** Many suneyes of all widths, while the craft turns slowly past the edge of what each of them sees. */
+    private static void edgeOfSuneyes() {
+        StringBuilder book = new StringBuilder("panel p 200 0;");
+        for (int i = 1; i <= 15; i++) {
+            book.append("suneye e").append(i).append(" 1 1;");
+        }
+        SmallCraft craft = Check.flying(book.toString());
+        craft.run(590);
+        for (int i = 0; i <= 15; i++) {
+            craft.command(4, i, 0);
+            craft.command(0, i, 0);
+        }
+        int met = 0;
+        while (craft.craft(1) < 900) {
+            int angle = craft.craft(3);
+            craft.run(1);
+            for (int i = 1; i <= 15; i++) {
+                int wide = craft.part(i, 37);
+                Check.due("suneye " + i + " at " + angle, craft.part(i, 32), angle < wide ? craft.part(i, 29) - angle : 9999);
+                met += angle == wide ? 1 : 0;
+            }
+        }
+        Check.due("the edge was met", met > 0, true);
+    }
+
     private static void camera() {
         SmallCraft craft = flying("recorder r 20;panel p 200 0;camera m 4 3 0;", 2);
         Check.due("lens", craft.part(2, 39), 5);
@@ -399,6 +424,7 @@ public final class FlightTest {
         thermos();
         hoses();
         readings();
+        edgeOfSuneyes();
         camera();
         wheels();
         jets();

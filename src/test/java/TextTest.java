@@ -76,6 +76,20 @@ public final class TextTest {
         Check.fails("run without units", IllegalStateException.class, () -> craft.run(0));
     }
 
+    /** What is on the tape behind the text, or was there once, is no part of it. */
+    private static void textEnds() {
+        SmallCraft craft = new SmallCraft();
+        Check.type(craft, "tank t 500;tank u 5;");
+        Check.due("a text that ends in a number", craft.load(8), -1);
+        Check.row("its fault", new int[] {craft.fault(0), craft.fault(1)}, 2, 8);
+        Check.type(craft, "tank t 500;tank u 5;");
+        Check.due("a text that ends behind a unit", craft.load(11), 1);
+        Check.type(craft, "tank t 500;tank u 5;tank v 5;");
+        Check.due("a text that is as long as the tape was", craft.load(20), 2);
+        Check.type(craft, "at 5 mode 1;at 6 mode 2;");
+        Check.due("a plan that ends", craft.plan(12), 1);
+    }
+
     private static void loadBeginsAnew() {
         SmallCraft craft = Check.flying("tank t 50;recorder rec 20;reactor r 200 0;beacon b 1 9;tracker k 9 2;");
         Check.plan(craft, "at 3 mode 2;at 4 aim 1 77;at 5 restart t;each 9 on t;");
@@ -312,6 +326,7 @@ public final class TextTest {
         newObject();
         feed();
         load();
+        textEnds();
         loadBeginsAnew();
         bookTokens();
         bookFaults();
