@@ -1,7 +1,10 @@
+import java.io.IOException;
 import java.nio.charset.StandardCharsets;
+import java.nio.file.Files;
+import java.nio.file.Path;
 import java.util.Arrays;
 
-/** What the tests share: comparing answers, and putting a text on a craft's tape. */
+/** What the tests share: comparing answers, naming a sentence of the document, putting a text on a craft's tape. */
 final class Check {
     interface Call {
         int answer();
@@ -9,23 +12,61 @@ final class Check {
 
     private static int wrong = 0;
     private static int looked = 0;
+    private static int sentences = 0;
+    private static String sentence = "";
+    private static final String DOCUMENT = document();
 
     private Check() {
+    }
+
+    private static String squeezed(String text) {
+        return text.replace("&lt;", "<").replace("&gt;", ">").replaceAll("\\s+", " ").trim();
+    }
+
+    private static String document() {
+        try {
+            return squeezed(Files.readString(Path.of("../shared/DOC.md")));
+        } catch (IOException e) {
+            System.out.println("no document at hand: the words of the sentences are not compared with it");
+            return "";
+        }
+    }
+
+    /** A test of its own for a sentence of the document, which is named by its place and in its own words. */
+    static void sentence(String place, String words, Runnable test) {
+        sentences++;
+        sentence = "[" + place + ": " + words + "] ";
+        if (!DOCUMENT.isEmpty() && !DOCUMENT.contains(squeezed(words))) {
+            tell("does not stand in the document");
+        }
+        int before = looked;
+        try {
+            test.run();
+        } catch (RuntimeException e) {
+            tell("its test ended by " + e + " at " + e.getStackTrace()[0]);
+        }
+        if (looked == before) {
+            tell("its test looked at nothing");
+        }
+        sentence = "";
+    }
+
+    private static void tell(String text) {
+        wrong++;
+        System.out.println(sentence + text);
     }
 
     static void due(String what, long got, long want) {
         looked++;
         if (got != want) {
-            wrong++;
-            System.out.println(what + " answered " + got + ", due is " + want);
+            tell(what + " answered " + got + ", due is " + want);
         }
     }
 
     static void row(String what, int[] got, int... want) {
         looked++;
         if (!Arrays.equals(got, want)) {
-            wrong++;
-            System.out.println(what + " answered " + Arrays.toString(got) + ", due is " + Arrays.toString(want));
+            tell(what + " answered " + Arrays.toString(got) + ", due is " + Arrays.toString(want));
         }
     }
 
@@ -38,12 +79,10 @@ final class Check {
         looked++;
         try {
             int got = call.answer();
-            wrong++;
-            System.out.println(what + " answered " + got + ", due is " + want.getSimpleName());
+            tell(what + " answered " + got + ", due is " + want.getSimpleName());
         } catch (RuntimeException e) {
             if (e.getClass() != want) {
-                wrong++;
-                System.out.println(what + " threw " + e + ", due is " + want.getSimpleName());
+                tell(what + " threw " + e + ", due is " + want.getSimpleName());
             }
         }
     }
@@ -83,6 +122,57 @@ final class Check {
         return craft;
     }
 
+    /** Switches units on; one that is stubborn takes two acts. */
+    static void on(SmallCraft craft, int... units) {
+        for (int unit : units) {
+            if (craft.part(unit, 64) == 1) {
+                craft.command(0, unit, 0);
+            }
+            due("on of unit " + unit, craft.command(0, unit, 0), true);
+        }
+    }
+
+    static SmallCraft flying(String book, int... on) {
+        SmallCraft craft = flying(book);
+        on(craft, on);
+        return craft;
+    }
+
+    /** Runs until so many ticks were flown. */
+    static void until(SmallCraft craft, int ticks) {
+        for (int left = ticks - craft.craft(1); left > 0; left -= 1000) {
+            craft.run(Math.min(left, 1000));
+        }
+    }
+
+    static void bookFault(String text, int code, int place) {
+        SmallCraft craft = new SmallCraft();
+        due("load of " + text, load(craft, text), SmallCraft.NONE);
+        row("fault of " + text, new int[] {craft.fault(0), craft.fault(1)}, code, place);
+    }
+
+    static void goodBook(String text, int units) {
+        SmallCraft craft = new SmallCraft();
+        due("load of " + text, load(craft, text), units);
+        row("fault of " + text, new int[] {craft.fault(0), craft.fault(1)}, 0, SmallCraft.NONE);
+    }
+
+    /** The units that the plans of planFault and goodPlan speak of. */
+    static final String PLANNED = "battery bat 50;recorder rec 50;wheel w 5 0;gyro g 5 5 0;heater h 5;";
+
+    static void planFault(String text, int code, int place) {
+        SmallCraft craft = flying(PLANNED);
+        due("plan of " + text, plan(craft, text), SmallCraft.NONE);
+        row("fault of " + text, new int[] {craft.fault(0), craft.fault(1)}, code, place);
+    }
+
+    static void goodPlan(String text, int items) {
+        SmallCraft craft = flying(PLANNED);
+        due("plan of " + text, plan(craft, text), items);
+        row("fault of " + text, new int[] {craft.fault(0), craft.fault(1)}, 0, SmallCraft.NONE);
+        due("items of " + text, craft.craft(24), items);
+    }
+
     static int[] parts(SmallCraft craft, int unit, int... whats) {
         int[] row = new int[whats.length];
         for (int i = 0; i < whats.length; i++) {
@@ -100,7 +190,8 @@ final class Check {
     }
 
     static void end() {
-        System.out.println(looked + " answers looked at, " + wrong + " wrong");
+        String named = sentences > 0 ? sentences + " sentences, " : "";
+        System.out.println(named + looked + " answers looked at, " + wrong + " wrong");
         if (wrong != 0) {
             System.exit(1);
         }

@@ -2,33 +2,6 @@
 public final class TextTest {
     private static final Class<IllegalArgumentException> ILLEGAL = IllegalArgumentException.class;
 
-    private static void bookFault(String text, int code, int place) {
-        SmallCraft craft = new SmallCraft();
-        Check.due("load of " + text, Check.load(craft, text), SmallCraft.NONE);
-        Check.row("fault of " + text, new int[] {craft.fault(0), craft.fault(1)}, code, place);
-    }
-
-    private static void goodBook(String text, int units) {
-        SmallCraft craft = new SmallCraft();
-        Check.due("load of " + text, Check.load(craft, text), units);
-        Check.row("fault of " + text, new int[] {craft.fault(0), craft.fault(1)}, 0, SmallCraft.NONE);
-    }
-
-    private static final String BOOK = "battery bat 50;recorder rec 50;wheel w 5 0;gyro g 5 5 0;heater h 5;";
-
-    private static void planFault(String text, int code, int place) {
-        SmallCraft craft = Check.flying(BOOK);
-        Check.due("plan of " + text, Check.plan(craft, text), SmallCraft.NONE);
-        Check.row("fault of " + text, new int[] {craft.fault(0), craft.fault(1)}, code, place);
-    }
-
-    private static void goodPlan(String text, int items) {
-        SmallCraft craft = Check.flying(BOOK);
-        Check.due("plan of " + text, Check.plan(craft, text), items);
-        Check.row("fault of " + text, new int[] {craft.fault(0), craft.fault(1)}, 0, SmallCraft.NONE);
-        Check.due("items of " + text, craft.craft(24), items);
-    }
-
     private static void newObject() {
         SmallCraft craft = new SmallCraft();
         for (int what = -1; what <= 30; what++) {
@@ -110,48 +83,48 @@ public final class TextTest {
     }
 
     private static void bookTokens() {
-        goodBook("", 0);
-        goodBook(" \n ", 0);
-        goodBook("tank t 90;", 1);
-        goodBook("\n tank\n t  90\n;", 1);
-        goodBook("tank tank 5;tank t9abcdef 6;", 2);
-        goodBook("tank t 00005;gyro g 5 5 -0;battery b 5;", 3);
-        goodBook("tank t 5;hose h 0 0 9;tank abcdefgh 7;", 3);
+        Check.goodBook("", 0);
+        Check.goodBook(" \n ", 0);
+        Check.goodBook("tank t 90;", 1);
+        Check.goodBook("\n tank\n t  90\n;", 1);
+        Check.goodBook("tank tank 5;tank t9abcdef 6;", 2);
+        Check.goodBook("tank t 00005;gyro g 5 5 -0;battery b 5;", 3);
+        Check.goodBook("tank t 5;hose h 0 0 9;tank abcdefgh 7;", 3);
     }
 
     private static void bookFaults() {
-        bookFault("Tank t 5;", 1, 0);
-        bookFault("\ttank t 5;", 1, 0);
-        bookFault("tank t 5;\0", 1, 9);
-        bookFault("abcdefghi", 1, 8);
-        bookFault("tank abcdefgh9 5;", 1, 13);
-        bookFault("tank t 123456;", 1, 12);
-        bookFault("tank t -123456;", 1, 13);
-        bookFault("tank t -;", 1, 8);
-        bookFault("tank t - 5;", 1, 8);
-        bookFault("tank t --5;", 1, 8);
-        bookFault("tank t -", 1, 8);
-        bookFault("tank t 5.", 1, 8);
-        bookFault("boat b 5;", 2, 0);
-        bookFault("tanks b 5;", 2, 0);
-        bookFault("tan b 5;", 2, 0);
-        bookFault("  7", 2, 2);
-        bookFault(";", 2, 0);
-        bookFault("tank", 2, 4);
-        bookFault("tank t 90", 2, 9);
-        bookFault("tank t 90  ", 2, 11);
-        bookFault("tank 5 5;", 2, 5);
-        bookFault("tank t;", 2, 6);
-        bookFault("tank t5;", 2, 7);
-        bookFault("tank t 5 5;", 2, 9);
-        bookFault("tank t 5tank u 5;", 2, 8);
-        bookFault("tank t 5<", 2, 8);
-        bookFault("tank t x;", 2, 7);
-        bookFault("tank t 5;tank t 6;", 3, 14);
-        bookFault("tank t 5;tank t -", 3, 14);
-        bookFault("tank t-5;A", 5, 6);
-        bookFault("tank t 0 A", 5, 7);
-        bookFault("tank t 99999;", 5, 7);
+        Check.bookFault("Tank t 5;", 1, 0);
+        Check.bookFault("\ttank t 5;", 1, 0);
+        Check.bookFault("tank t 5;\0", 1, 9);
+        Check.bookFault("abcdefghi", 1, 8);
+        Check.bookFault("tank abcdefgh9 5;", 1, 13);
+        Check.bookFault("tank t 123456;", 1, 12);
+        Check.bookFault("tank t -123456;", 1, 13);
+        Check.bookFault("tank t -;", 1, 8);
+        Check.bookFault("tank t - 5;", 1, 8);
+        Check.bookFault("tank t --5;", 1, 8);
+        Check.bookFault("tank t -", 1, 8);
+        Check.bookFault("tank t 5.", 1, 8);
+        Check.bookFault("boat b 5;", 2, 0);
+        Check.bookFault("tanks b 5;", 2, 0);
+        Check.bookFault("tan b 5;", 2, 0);
+        Check.bookFault("  7", 2, 2);
+        Check.bookFault(";", 2, 0);
+        Check.bookFault("tank", 2, 4);
+        Check.bookFault("tank t 90", 2, 9);
+        Check.bookFault("tank t 90  ", 2, 11);
+        Check.bookFault("tank 5 5;", 2, 5);
+        Check.bookFault("tank t;", 2, 6);
+        Check.bookFault("tank t5;", 2, 7);
+        Check.bookFault("tank t 5 5;", 2, 9);
+        Check.bookFault("tank t 5tank u 5;", 2, 8);
+        Check.bookFault("tank t 5<", 2, 8);
+        Check.bookFault("tank t x;", 2, 7);
+        Check.bookFault("tank t 5;tank t 6;", 3, 14);
+        Check.bookFault("tank t 5;tank t -", 3, 14);
+        Check.bookFault("tank t-5;A", 5, 6);
+        Check.bookFault("tank t 0 A", 5, 7);
+        Check.bookFault("tank t 99999;", 5, 7);
     }
 
     private static String tanks(int count) {
@@ -164,19 +137,19 @@ public final class TextTest {
 
     private static void bookTooLong() {
         String twenty = tanks(20);
-        goodBook(twenty, 20);
-        bookFault(twenty + " tank", 4, twenty.length() + 1);
-        bookFault(twenty + "boat", 2, twenty.length());
-        bookFault(twenty + "A", 1, twenty.length());
+        Check.goodBook(twenty, 20);
+        Check.bookFault(twenty + " tank", 4, twenty.length() + 1);
+        Check.bookFault(twenty + "boat", 2, twenty.length());
+        Check.bookFault(twenty + "A", 1, twenty.length());
     }
 
     /** A number of a kind at its edges; what stands ahead and behind it in the line is written out. */
     private static void range(String before, int least, int greatest, String behind) {
         String ahead = "tank t 9;recorder r 20;heater h 9;" + before + " ";
-        goodBook(ahead + least + behind + ";", 4);
-        goodBook(ahead + greatest + behind + ";", 4);
-        bookFault(ahead + (least - 1) + behind + ";", 5, ahead.length());
-        bookFault(ahead + (greatest + 1) + behind + ";", 5, ahead.length());
+        Check.goodBook(ahead + least + behind + ";", 4);
+        Check.goodBook(ahead + greatest + behind + ";", 4);
+        Check.bookFault(ahead + (least - 1) + behind + ";", 5, ahead.length());
+        Check.bookFault(ahead + (greatest + 1) + behind + ";", 5, ahead.length());
     }
 
     private static void bookRanges() {
@@ -226,12 +199,12 @@ public final class TextTest {
         range("hose x", 0, 0, " 0 1");
         range("hose x 0", 0, 0, " 1");
         range("hose x 0 0", 1, 9, "");
-        bookFault("thermo x 1 0 0;", 5, 11);
-        bookFault("pipe x 0 0;", 5, 7);
+        Check.bookFault("thermo x 1 0 0;", 5, 11);
+        Check.bookFault("pipe x 0 0;", 5, 7);
     }
 
     private static void plan() {
-        SmallCraft craft = Check.flying(BOOK);
+        SmallCraft craft = Check.flying(Check.PLANNED);
         Check.type(craft, "at 0 mode 1;");
         Check.fails("plan(-1)", ILLEGAL, () -> craft.plan(-1));
         Check.fails("plan(21)", ILLEGAL, () -> craft.plan(21));
@@ -250,64 +223,64 @@ public final class TextTest {
     }
 
     private static void plansThatAreGood() {
-        goodPlan("", 0);
-        goodPlan("at 0 on h;at 9999 off bat;each 1 mode 0;each 9999 mode 3;", 4);
-        goodPlan("at 1 aim 0 0;at 1 aim 2 3599;at 1 restart bat;at 1 wipe rec;at 1 stop 0;at 1 stop 29;", 6);
-        goodPlan("when level bat<-99999 mode 1;when level rec>99999mode 1;when heat h<0 mode 1;", 3);
-        goodPlan("when speed w>1 mode 1;when reading g<1 mode 1;when light>1 mode 1;", 3);
-        goodPlan("when angle 0<1 mode 1;when angle 2 > 1 mode 1;when rate 0<1 mode 1;when rate 2<1 mode 1;", 4);
+        Check.goodPlan("", 0);
+        Check.goodPlan("at 0 on h;at 9999 off bat;each 1 mode 0;each 9999 mode 3;", 4);
+        Check.goodPlan("at 1 aim 0 0;at 1 aim 2 3599;at 1 restart bat;at 1 wipe rec;at 1 stop 0;at 1 stop 29;", 6);
+        Check.goodPlan("when level bat<-99999 mode 1;when level rec>99999mode 1;when heat h<0 mode 1;", 3);
+        Check.goodPlan("when speed w>1 mode 1;when reading g<1 mode 1;when light>1 mode 1;", 3);
+        Check.goodPlan("when angle 0<1 mode 1;when angle 2 > 1 mode 1;when rate 0<1 mode 1;when rate 2<1 mode 1;", 4);
     }
 
     private static void planFaults() {
-        planFault("at 5 mode 1;A", 1, 12);
-        planFault("at 5 abcdefghi", 1, 13);
-        planFault("when light < -x", 1, 14);
-        planFault("on h;", 2, 0);
-        planFault("5", 2, 0);
-        planFault("at mode 1;", 2, 3);
-        planFault("at", 2, 2);
-        planFault("at 5;", 2, 4);
-        planFault("at 5 turn 1;", 2, 5);
-        planFault("at 5 mode 1", 2, 11);
-        planFault("at 5 mode h;", 2, 10);
-        planFault("at 5 on 5;", 2, 8);
-        planFault("at 5 mode 1 1;", 2, 12);
-        planFault("at 5 aim 1;", 2, 10);
-        planFault("when dark < 5 mode 1;", 2, 5);
-        planFault("when light 5 mode 1;", 2, 11);
-        planFault("when light ; 5 mode 1;", 2, 11);
-        planFault("when light < mode 1;", 2, 13);
-        planFault("when level 5 < 5 mode 1;", 2, 11);
-        planFault("when angle h < 5 mode 1;", 2, 11);
-        planFault("at 5 on x;", 3, 8);
-        planFault("at 5 on x", 3, 8);
-        planFault("at 5 wipe bat;", 3, 10);
-        planFault("when level h < 5 mode 1;", 3, 11);
-        planFault("when speed h < 5 mode 1;", 3, 11);
-        planFault("when reading w < 5 mode 1;", 3, 13);
-        planFault("when heat x < 5 mode 1;", 3, 10);
-        planFault("at -1 mode 1;", 5, 3);
-        planFault("at 10000 mode 1;", 5, 3);
-        planFault("each 0 mode 1;", 5, 5);
-        planFault("each 10000 mode 1;", 5, 5);
-        planFault("at 5 mode 4;", 5, 10);
-        planFault("at 5 mode -1;", 5, 10);
-        planFault("at 5 aim 3 0;", 5, 9);
-        planFault("at 5 aim 0 3600;", 5, 11);
-        planFault("at 5 aim 0 -1;", 5, 11);
-        planFault("at 5 stop 30;", 5, 10);
-        planFault("at 5 stop -1;", 5, 10);
-        planFault("when angle 3 < 5 mode 1;", 5, 11);
-        planFault("when rate -1 < 5 mode 1;", 5, 10);
+        Check.planFault("at 5 mode 1;A", 1, 12);
+        Check.planFault("at 5 abcdefghi", 1, 13);
+        Check.planFault("when light < -x", 1, 14);
+        Check.planFault("on h;", 2, 0);
+        Check.planFault("5", 2, 0);
+        Check.planFault("at mode 1;", 2, 3);
+        Check.planFault("at", 2, 2);
+        Check.planFault("at 5;", 2, 4);
+        Check.planFault("at 5 turn 1;", 2, 5);
+        Check.planFault("at 5 mode 1", 2, 11);
+        Check.planFault("at 5 mode h;", 2, 10);
+        Check.planFault("at 5 on 5;", 2, 8);
+        Check.planFault("at 5 mode 1 1;", 2, 12);
+        Check.planFault("at 5 aim 1;", 2, 10);
+        Check.planFault("when dark < 5 mode 1;", 2, 5);
+        Check.planFault("when light 5 mode 1;", 2, 11);
+        Check.planFault("when light ; 5 mode 1;", 2, 11);
+        Check.planFault("when light < mode 1;", 2, 13);
+        Check.planFault("when level 5 < 5 mode 1;", 2, 11);
+        Check.planFault("when angle h < 5 mode 1;", 2, 11);
+        Check.planFault("at 5 on x;", 3, 8);
+        Check.planFault("at 5 on x", 3, 8);
+        Check.planFault("at 5 wipe bat;", 3, 10);
+        Check.planFault("when level h < 5 mode 1;", 3, 11);
+        Check.planFault("when speed h < 5 mode 1;", 3, 11);
+        Check.planFault("when reading w < 5 mode 1;", 3, 13);
+        Check.planFault("when heat x < 5 mode 1;", 3, 10);
+        Check.planFault("at -1 mode 1;", 5, 3);
+        Check.planFault("at 10000 mode 1;", 5, 3);
+        Check.planFault("each 0 mode 1;", 5, 5);
+        Check.planFault("each 10000 mode 1;", 5, 5);
+        Check.planFault("at 5 mode 4;", 5, 10);
+        Check.planFault("at 5 mode -1;", 5, 10);
+        Check.planFault("at 5 aim 3 0;", 5, 9);
+        Check.planFault("at 5 aim 0 3600;", 5, 11);
+        Check.planFault("at 5 aim 0 -1;", 5, 11);
+        Check.planFault("at 5 stop 30;", 5, 10);
+        Check.planFault("at 5 stop -1;", 5, 10);
+        Check.planFault("when angle 3 < 5 mode 1;", 5, 11);
+        Check.planFault("when rate -1 < 5 mode 1;", 5, 10);
     }
 
     private static void planTooLong() {
         String thirty = "at 5 mode 1;".repeat(30);
-        goodPlan(thirty, 30);
-        planFault(thirty + "\neach", 4, 361);
-        planFault(thirty + "when", 4, 360);
-        planFault(thirty + "mode", 2, 360);
-        planFault(thirty + "-", 1, 361);
+        Check.goodPlan(thirty, 30);
+        Check.planFault(thirty + "\neach", 4, 361);
+        Check.planFault(thirty + "when", 4, 360);
+        Check.planFault(thirty + "mode", 2, 360);
+        Check.planFault(thirty + "-", 1, 361);
     }
 
     private static void fault() {
