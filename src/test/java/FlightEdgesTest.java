@@ -72,7 +72,8 @@ public final class FlightEdgesTest {
                 Check.due("a wheel of push 2, aim " + aims[k], craft.part(0, SPEED), speeds[k]);
             }
         });
-        Check.sentence("Terms I", "OFF(a, b) is the number from -1800 to 1799 that is b - a but for a multiple of 3600.", () -> {
+        Check.sentence("Terms I",
+            "OFF(a, b) is the number from -1800 to 1799 that is b - a but for a multiple of 3600.", () -> {
             int[] aims = {1799, 1800, 1801};
             int[] speeds = {2, -2, -2};
             for (int k = 0; k < aims.length; k++) {
@@ -91,7 +92,9 @@ public final class FlightEdgesTest {
 
     // ---- III. Light
     private static void load() {
-        Check.sentence("Terms III", "At load(): TICK 0 is next; angles G0, G1, G2 (0 .. 3599) 0, rates R0, R1, R2 0, aims 0; MODE 0; each unit's HEAT 200, none BROKEN; a plan without items.", () -> {
+        Check.sentence("Terms III",
+            "At load(): TICK 0 is next; angles G0, G1, G2 (0 .. 3599) 0, rates R0, R1, R2 0, aims 0; MODE "
+            + "0; each unit's HEAT 200, none BROKEN; a plan without items.", () -> {
             SmallCraft craft = steered(many("panel p 200 0;", 3, "wheel", "1 1"), 1, 1, 1000, 1, 2, 3);
             craft.command(3, 0, 77);
             craft.command(3, 2, 78);
@@ -99,7 +102,8 @@ public final class FlightEdgesTest {
             craft.run(900);
             Check.due("a unit is broken", craft.part(0, BROKEN), 1);
             Check.load(craft, "panel p 200 0;tank t 1;");
-            Check.row("all of it", Check.crafts(craft, 1, 2, 3, 4, 5, 6, 7, 8, 9, 10, 11, 24), 0, 0, 0, 0, 0, 0, 0, 0, 0, 0, 0, 0);
+            Check.row("all of it", Check.crafts(craft, 1, 2, 3, 4, 5, 6, 7, 8, 9, 10, 11, 24), 0, 0, 0, 0, 0, 0, 0, 0,
+                0, 0, 0, 0);
             Check.row("heat, broken", new int[] {craft.part(0, HEAT), craft.part(1, HEAT), craft.part(0, BROKEN),
                 craft.part(1, BROKEN)}, 200, 200, 0, 0);
             Check.due("no item", craft.item(0, 0), -1);
@@ -120,9 +124,12 @@ public final class FlightEdgesTest {
     }
 
     private static void light() {
-        Check.sentence("Terms III, step 1", "with q = t MOD 600: 100 up to q 339; 100 - 5 * (q - 339) up to 359; 0 up to 579; then 5 * (q - 579).", () -> {
+        Check.sentence("Terms III, step 1",
+            "with q = t MOD 600: 100 up to q 339; 100 - 5 * (q - 339) up to 359; 0 up to 579; then 5 * (q - "
+            + "579).", () -> {
             SmallCraft craft = Check.flying("tank t 5;");
-            int[] ticks = {0, 1, 338, 339, 340, 341, 358, 359, 360, 361, 578, 579, 580, 581, 598, 599, 600, 601, 939, 940, 1199, 1200};
+            int[] ticks = {0, 1, 338, 339, 340, 341, 358, 359, 360, 361, 578, 579, 580, 581, 598, 599, 600, 601, 939,
+                940, 1199, 1200};
             int[] lights = {100, 100, 100, 100, 95, 90, 5, 0, 0, 0, 0, 0, 5, 10, 95, 100, 100, 100, 100, 95, 100, 100};
             for (int k = 0; k < ticks.length; k++) {
                 Check.until(craft, ticks[k] + 1);
@@ -151,7 +158,8 @@ public final class FlightEdgesTest {
 
     // ---- III. Readings
     private static void readings() {
-        Check.sentence("Terms III, step 3", "each SENSOR that is ON, if t MOD every is 0: GYRO: reading = R(axis) + drift.", () -> {
+        Check.sentence("Terms III, step 3",
+            "each SENSOR that is ON, if t MOD every is 0: GYRO: reading = R(axis) + drift.", () -> {
             SmallCraft craft = Check.flying("panel p 200 0;gyro a 1 50 0;gyro b 1 1 0;gyro c 1 7 0;", 1, 2);
             int[] drifts = row(craft, 1, 3, 33);
             Check.row("drifts", drifts, 2, -2, 1);
@@ -168,7 +176,8 @@ public final class FlightEdgesTest {
             craft.run(10);
             Check.due("off since", craft.part(2, READING), 1 - 2);
         });
-        Check.sentence("Terms III, step 3", "e + noise if L is above 0 and the amount of e is below wide, else 9999.", () -> {
+        Check.sentence("Terms III, step 3",
+            "e + noise if L is above 0 and the amount of e is below wide, else 9999.", () -> {
             SmallCraft craft = Check.flying("suneye e 1 1;" + STORE, 0);
             Check.row("noise, wide", Check.parts(craft, 0, 29, 37), 3, 720);
             craft.run(1);
@@ -210,13 +219,15 @@ public final class FlightEdgesTest {
                 Check.due("tick " + t, craft.part(2, READING), (t + 500) % 256);
             }
         });
-        Check.sentence("Terms III, step 3", "if unit of is not BROKEN and has room for lens bytes more than its level", () -> {
+        Check.sentence("Terms III, step 3",
+            "if unit of is not BROKEN and has room for lens bytes more than its level", () -> {
             int[] rooms = {20, 24, 25, 26};
             int[] levels = {20, 20, 25, 25};
             for (int k = 0; k < rooms.length; k++) {
                 SmallCraft craft = Check.flying("recorder r " + rooms[k] + ";panel p 200 0;camera m 4 1 0;", 2);
                 craft.run(20);
-                Check.row("room " + rooms[k], new int[] {craft.part(0, LEVEL), craft.part(2, SHOTS), craft.kept(0, levels[k])},
+                Check.row("room " + rooms[k], new int[] {craft.part(0, LEVEL), craft.part(2, SHOTS), craft.kept(0,
+                    levels[k])},
                     levels[k], levels[k] / 5, -1);
                 Check.due("the reading goes on", craft.part(2, READING), (19 + 500) % 256);
             }
@@ -227,13 +238,15 @@ public final class FlightEdgesTest {
             cold.command(5, 0, 0);
             Check.on(cold, 4);
             cold.run(1);
-            Check.row("no picture for a broken one", new int[] {cold.part(0, LEVEL), cold.part(4, SHOTS), cold.part(4, READING)},
+            Check.row("no picture for a broken one", new int[] {cold.part(0, LEVEL), cold.part(4, SHOTS), cold.part(4,
+                READING)},
                 0, 0, 520 % 256);
             cold.command(4, 0, 0);
             cold.run(1);
             Check.row("a picture for a new one", new int[] {cold.part(0, LEVEL) > 0 ? 1 : 0, cold.part(4, SHOTS)}, 1, 1);
         });
-        Check.sentence("Terms III, step 3", "these come behind those that it keeps: reading, reading + 1, .. (MOD 256)", () -> {
+        Check.sentence("Terms III, step 3",
+            "these come behind those that it keeps: reading, reading + 1, .. (MOD 256)", () -> {
             SmallCraft craft = Check.flying("recorder r 20;panel p 200 0;camera m 4 10 0;", 2);
             craft.run(11);
             int[] got = new int[11];
@@ -242,7 +255,8 @@ public final class FlightEdgesTest {
             }
             Check.row("bytes", got, 244, 245, 246, 247, 248, 254, 255, 0, 1, 2, -1);
         });
-        Check.sentence("Promise 13", "The i-th byte, from the first on, that a RECORDER keeps; NONE if there is none such.", () -> {
+        Check.sentence("Promise 13",
+            "The i-th byte, from the first on, that a RECORDER keeps; NONE if there is none such.", () -> {
             SmallCraft craft = Check.flying("recorder r 20;tank t 9;");
             Check.due("none yet", craft.kept(0, 0), -1);
             craft.run(25);
@@ -253,7 +267,9 @@ public final class FlightEdgesTest {
             craft.command(5, 0, 0);
             Check.row("wiped", new int[] {craft.kept(0, 0), craft.kept(0, 11)}, -1, -1);
         });
-        Check.sentence("Promise 13", "IndexOutOfBoundsException when there is no such unit; then IllegalArgumentException when it is no RECORDER.", () -> {
+        Check.sentence("Promise 13",
+            "IndexOutOfBoundsException when there is no such unit; then IllegalArgumentException when it is "
+            + "no RECORDER.", () -> {
             SmallCraft craft = Check.flying("recorder r 20;tank t 9;battery b 9;heater h 9;");
             for (int unit : new int[] {-1, 4, 20, Integer.MIN_VALUE, Integer.MAX_VALUE}) {
                 Check.fails("unit " + unit, IndexOutOfBoundsException.class, () -> craft.kept(unit, 0));
@@ -284,6 +300,13 @@ public final class FlightEdgesTest {
             craft.command(0, 2, 0);
             craft.run(1);
             Check.due("in each tick", craft.part(2, ON), 0);
+            SmallCraft first = Check.flying("heater h 1;panel p 200 0;");
+            first.command(4, 0, 0);
+            Check.on(first, 0);
+            first.command(2, 3, 0);
+            Check.row("line and on of the first unit", Check.parts(first, 0, 21, ON), 2, 1);
+            first.run(1);
+            Check.due("the first unit", first.part(0, ON), 0);
         });
         Check.sentence("Terms III, step 4", "MODES 1, 2, if t MOD 4 is 0, for axis x = 0, 1, 2", () -> {
             for (int axis = 0; axis <= 2; axis++) {
@@ -308,7 +331,8 @@ public final class FlightEdgesTest {
             late.run(1);
             Check.due("tick 4", late.part(0, SPEED), 2);
         });
-        Check.sentence("Terms III, step 4", "for x = 0 the reading of the first SUNEYE that is ON (200 without one, or if it is 9999)", () -> {
+        Check.sentence("Terms III, step 4",
+            "for x = 0 the reading of the first SUNEYE that is ON (200 without one, or if it is 9999)", () -> {
             SmallCraft none = steered(many("suneye e 1 1;panel p 200 0;", 7, "wheel", "1 0"), 2, 0, 1800, from(2, 8));
             none.run(1);
             Check.row("200 / 16 is 12, with an eye that is off", row(none, 2, 7, SPEED), 2, 2, 2, 2, 2, 2, 0);
@@ -326,6 +350,21 @@ public final class FlightEdgesTest {
             Check.row("a reading of 0, when none was taken yet", new int[] {seen.part(0, READING), seen.craft(6)}, 0, 13);
         });
         Check.sentence("Terms III, step 4", "in MODE 2 OFF(Gx, 0)", () -> {
+            for (int axis = 1; axis <= 2; axis++) {
+                SmallCraft slow = steered("panel p 200 0;wheel v 1 " + axis + ";wheel w 1 " + axis + ";", 1, axis,
+                    1000, 1, 2);
+                slow.run(1);
+                slow.command(2, 0, 0);
+                slow.run(11);
+                Check.row("angle 12", Check.crafts(slow, 3 + axis, 6 + axis), 12, 4);
+                slow.command(2, 2, 0);
+                slow.run(1);
+                Check.row("-12 / 16", Check.crafts(slow, 3 + axis, 6 + axis), 13, 4);
+                slow.run(3);
+                Check.row("angle 16", Check.crafts(slow, 3 + axis, 6 + axis), 16, 4);
+                slow.run(1);
+                Check.row("-16 / 16", Check.crafts(slow, 3 + axis, 6 + axis), 16, 3);
+            }
             SmallCraft craft = steered("wheel w 1 1;panel p 200 0;", 1, 1, 1000, 0);
             craft.run(5);
             Check.row("G1, R1", Check.crafts(craft, 4, 7), 1, 4);
@@ -347,7 +386,8 @@ public final class FlightEdgesTest {
             Check.due("R1", craft.craft(7), 30);
             SmallCraft back = steered(many("panel p 200 0;", 17, "wheel", "1 1"), 1, 1, 2600, from(1, 17));
             back.run(1);
-            Check.row("the other way", row(back, 1, 17, SPEED), -2, -2, -2, -2, -2, -2, -2, -2, -2, -2, -2, -2, -2, -2, -2, 0, 0);
+            Check.row("the other way", row(back, 1, 17, SPEED), -2, -2, -2, -2, -2, -2, -2, -2, -2, -2, -2, -2, -2,
+                -2, -2, 0, 0);
             Check.due("R1", back.craft(7), -30);
             int[] aims = {463, 464, 479, 480, 495, 496};
             int[] rates = {28, 29, 29, 30, 30, 30};
@@ -357,7 +397,8 @@ public final class FlightEdgesTest {
                 Check.due("aim " + aims[k], near.craft(7), rates[k]);
             }
         });
-        Check.sentence("Terms III, step 4", "r being the reading of the first GYRO that is ON with that axis (0 without)", () -> {
+        Check.sentence("Terms III, step 4",
+            "r being the reading of the first GYRO that is ON with that axis (0 without)", () -> {
             // The gyros' drifts are -2 (unit 1), 1 (unit 2), -3 (unit 3): each tells its own w at tick 0.
             String book = many("panel p 200 0;gyro a 1 1 2;gyro b 1 1 1;gyro c 1 1 1;", 9, "wheel", "1 1");
             int[] drifts = row(Check.flying(book), 1, 3, 33);
@@ -378,8 +419,18 @@ public final class FlightEdgesTest {
             both.run(1);
             Check.due("the first of two", both.craft(7), 4 - 2 * drifts[1]);
             Check.due("they differ", drifts[1] != drifts[2] && drifts[1] != 0 && drifts[2] != 0, true);
+            // The first unit of all: its drift is 0 at load, and -3 + (6 MOD 7) when it is started again.
+            SmallCraft first = steered(many("gyro a 1 1 1;panel p 200 0;", 9, "wheel", "1 1"), 1, 1, 160, from(2, 10));
+            first.command(4, 0, 0);
+            int drift = first.craft(12) % 7 - 3;
+            Check.row("its drift", Check.parts(first, 0, 33), drift);
+            Check.on(first, 0);
+            first.run(1);
+            Check.row("the first unit", new int[] {first.craft(7), drift != 0 ? 1 : 0}, 10 - 2 * drift, 1);
         });
-        Check.sentence("Terms III, step 4", "c = LIMIT(speed + LIMIT(w, 0 - push, push), 0 - most, most) - speed; speed and Rx grow by c, w becomes less by c.", () -> {
+        Check.sentence("Terms III, step 4",
+            "c = LIMIT(speed + LIMIT(w, 0 - push, push), 0 - most, most) - speed; speed and Rx grow by c, w "
+            + "becomes less by c.", () -> {
             SmallCraft craft = steered("wheel w 1 0;" + STORE + "wheel v 1 0;", 2, 0, 0, 0);
             Check.row("most", Check.parts(craft, 0, 42, 43), 2, 201);
             Check.until(craft, 397);
@@ -409,7 +460,9 @@ public final class FlightEdgesTest {
             }
             Check.due("its rate", craft.craft(7), -201);
         });
-        Check.sentence("Terms III, step 4", "if t MOD 8 is 0: c = LIMIT(w, -1, 1) if push is above 0, else 0; Rx grows by c, w becomes less by c.", () -> {
+        Check.sentence("Terms III, step 4",
+            "if t MOD 8 is 0: c = LIMIT(w, -1, 1) if push is above 0, else 0; Rx grows by c, w becomes less "
+            + "by c.", () -> {
             int[] aims = {0, 15, 16, 32, 48, 1000, 3600 - 15, 3600 - 16, 3600 - 32, 2600};
             int[] rates = {0, 0, 1, 2, 2, 2, 0, -1, -2, -2};
             for (int k = 0; k < aims.length; k++) {
@@ -424,6 +477,9 @@ public final class FlightEdgesTest {
                 Check.until(craft, ticks[k]);
                 Check.due("behind " + ticks[k] + " ticks", craft.craft(7), due[k]);
             }
+            SmallCraft off = steered("coil k 1 1;coil l 1 1;panel p 200 0;", 1, 1, 1000, 1);
+            off.run(1);
+            Check.due("one of two is off", off.craft(7), 1);
             SmallCraft rest = steered("wheel w 1 1;coil k 1 1;panel p 200 0;", 1, 1, 32, 0, 1);
             rest.run(1);
             Check.due("the wheel has left nothing", rest.craft(7), 2);
@@ -450,7 +506,29 @@ public final class FlightEdgesTest {
             Check.row("-52", new int[] {back.part(3, SPEED), back.part(4, SHOTS)}, -52, 0);
             back.command(3, 1, Math.floorMod(back.craft(4) - 1000, 3600));
             back.run(4);
-            Check.row("-54 nearer to 0 by 5", new int[] {back.part(3, SPEED), back.part(4, SHOTS), back.craft(7)}, -49, 1, -54);
+            Check.row("-54 nearer to 0 by 5", new int[] {back.part(3, SPEED), back.part(4, SHOTS), back.craft(7)},
+                -49, 1, -54);
+        });
+        Check.sentence("Terms III, step 4", "Then each WHEEL that is ON with that axis, 4 * the amount", () -> {
+            // Wheel 0 has most 201: a speed of 50 is not above a fourth of it, 52 is.
+            String book = "wheel w 1 0;cellpack c 2000 8;tank t 50;wheel v 1 1;jet j 1 0 2;jet k 1 1 2;";
+            SmallCraft first = steered(book, 2, 0, 0, 0, 4, 5);
+            first.run(97);
+            Check.row("50", new int[] {first.part(0, SPEED), first.part(4, SHOTS)}, 50, 0);
+            first.run(4);
+            Check.row("the first unit, by the jet of its axis", new int[] {first.part(0, SPEED), first.part(4, SHOTS),
+                first.part(5, SHOTS)}, 48, 1, 0);
+            SmallCraft off = steered(book, 2, 0, 0, 0);
+            off.run(121);
+            Check.due("62", off.part(0, SPEED), 62);
+            off.command(1, 0, 0);
+            Check.on(off, 4, 5);
+            off.run(8);
+            Check.row("a wheel that is off", new int[] {off.part(0, SPEED), off.part(4, SHOTS), off.part(5, SHOTS)},
+                62, 0, 0);
+            Check.on(off, 0);
+            off.run(4);
+            Check.row("on again", new int[] {off.part(0, SPEED), off.part(4, SHOTS), off.part(5, SHOTS)}, 64 - 4, 1, 0);
         });
         Check.sentence("Terms III, step 4", "its tank is not BROKEN and has a level of its gas or more", () -> {
             int[] rooms = {1, 2, 3, 4, 5, 6};
@@ -459,15 +537,18 @@ public final class FlightEdgesTest {
                 SmallCraft craft = steered(wheel.replace("%s", "" + rooms[k]) + "tank v 9;jet j 1 0 1;", 2, 0, 0, 3, 5);
                 Check.due("gas", craft.part(5, 47), 3);
                 craft.run(130);
-                Check.row("room " + rooms[k], new int[] {craft.part(5, SHOTS), craft.part(1, LEVEL)}, shots[k], rooms[k] - 3 * shots[k]);
+                Check.row("room " + rooms[k], new int[] {craft.part(5, SHOTS), craft.part(1, LEVEL)}, shots[k],
+                    rooms[k] - 3 * shots[k]);
             }
             SmallCraft cold = Check.flying("tank t 50;tank u 1;tank v 1;tank y 1;" + STORE + "wheel w 1 0;jet j 1 0 0;", 6, 7);
             cold.run(520);
-            Check.row("the tank is broken, they are not", new int[] {cold.part(0, BROKEN), cold.part(6, BROKEN), cold.part(7, BROKEN)},
+            Check.row("the tank is broken, they are not", new int[] {cold.part(0, BROKEN), cold.part(6, BROKEN),
+                cold.part(7, BROKEN)},
                 1, 0, 0);
             Check.plan(cold, "each 1 mode 2;");
             cold.run(113);
-            Check.row("no shot", new int[] {cold.part(6, SPEED) > 52 ? 1 : 0, cold.part(7, SHOTS), cold.part(0, LEVEL)}, 1, 0, 50);
+            Check.row("no shot", new int[] {cold.part(6, SPEED) > 52 ? 1 : 0, cold.part(7, SHOTS), cold.part(0,
+                LEVEL)}, 1, 0, 50);
             cold.command(4, 0, 0);
             cold.run(4);
             Check.row("a new tank: a shot", new int[] {cold.part(7, SHOTS), cold.part(0, LEVEL)}, 1, 50 - cold.part(7, 47));
@@ -492,8 +573,11 @@ public final class FlightEdgesTest {
             none.run(105);
             Check.row("none", new int[] {none.part(3, SPEED), none.part(1, LEVEL), none.part(2, LEVEL)}, 54, 50, 9);
         });
-        Check.sentence("Terms III, step 4", "the speed comes nearer to 0 by LIMIT(push, 0, its amount), the tank's level is less by gas, shots grows by 1.", () -> {
-            SmallCraft craft = steered("cellpack c 2000 8;tank t 50;tank u 9;wheel w 1 0;wheel x 1 0;jet j 1 0 1;", 2, 0, 0, 3, 4, 5);
+        Check.sentence("Terms III, step 4",
+            "the speed comes nearer to 0 by LIMIT(push, 0, its amount), the tank's level is less by gas, "
+            + "shots grows by 1.", () -> {
+            SmallCraft craft = steered("cellpack c 2000 8;tank t 50;tank u 9;wheel w 1 0;wheel x 1 0;jet j 1 0 1;", 2,
+                0, 0, 3, 4, 5);
             int gas = craft.part(5, 47);
             craft.run(105);
             Check.row("both wheels in one tick", new int[] {craft.part(3, SPEED), craft.part(4, SPEED), craft.part(5, SHOTS),
@@ -524,9 +608,13 @@ public final class FlightEdgesTest {
                 for (int axis = 1; axis <= 2; axis++) {
                     SmallCraft spun = steered(many("cellpack c 2000 8;", 16, "wheel", "1 " + axis), 1, axis, 0, from(1, 16));
                     for (int k = 1; k <= 15; k++) {
-                        spun.command(3, axis, Math.floorMod(spun.craft(3 + axis) + sign * 1000, 3600));
+                        int from = spun.craft(3 + axis);
+                        int before = Math.min(30 * (k - 1), 400);
+                        int behind = Math.min(30 * k, 400);
+                        spun.command(3, axis, Math.floorMod(from + sign * 1000, 3600));
                         spun.run(k == 1 ? 1 : 4);
-                        Check.due("step " + k, spun.craft(6 + axis), sign * Math.min(30 * k, 400));
+                        Check.row("step " + k, Check.crafts(spun, 6 + axis, 3 + axis), sign * behind,
+                            Math.floorMod(from + sign * (3 * (before / 4) + behind / 4), 3600));
                     }
                 }
             }
@@ -555,10 +643,13 @@ public final class FlightEdgesTest {
     private static final int[] SHINE = {100, 99, 96, 91, 84, 75, 64, 51, 38, 25, 14, 6, 2, 0, 0, 0};
 
     private static void panels() {
-        Check.sentence("Terms III, step 6", "F being the k-th (from 0) of 100 99 96 91 84 75 64 51 38 25 14 6 2 0 0 0, k = the amount of OFF(G1, 900 * face) / 120", () -> {
+        Check.sentence("Terms III, step 6",
+            "F being the k-th (from 0) of 100 99 96 91 84 75 64 51 38 25 14 6 2 0 0 0, k = the amount of "
+            + "OFF(G1, 900 * face) / 120", () -> {
             boolean[] met = new boolean[16];
             for (int face = 0; face <= 3; face++) {
-                SmallCraft craft = steered(many("panel p 200 " + face + ";cellpack c 2000 8;", 8, "wheel", "1 1"), 1, 1, 1000, from(2, 9));
+                SmallCraft craft = steered(many("panel p 200 " + face + ";cellpack c 2000 8;", 8, "wheel", "1 1"), 1,
+                    1, 1000, from(2, 9));
                 craft.run(1);
                 Check.row("R1 and G1", Check.crafts(craft, 7, 4), 16, 4);
                 craft.command(2, 0, 0);
@@ -586,6 +677,20 @@ public final class FlightEdgesTest {
             Check.row("119", Check.crafts(slow, 4, 26), 119, 200);
             slow.run(1);
             Check.row("120", Check.crafts(slow, 4, 26), 120, 198);
+            int[] faces = {1, 2, 3};
+            int[] angles = {60, 240, 59};
+            int[] before = {102, 0, 102};
+            int[] behind = {128, 4, 76};
+            for (int i = 0; i < 3; i++) {
+                SmallCraft other = steered("panel p 200 " + faces[i] + ";cellpack c 2000 8;wheel v 1 1;wheel w 1 1;",
+                    1, 1, 1000, 2, 3);
+                other.run(1);
+                other.command(2, 0, 0);
+                Check.until(other, angles[i]);
+                Check.row("face " + faces[i], Check.crafts(other, 4, 26), angles[i], before[i]);
+                other.run(1);
+                Check.row("one more", Check.crafts(other, 4, 26), angles[i] + 1, behind[i]);
+            }
         });
         Check.sentence("Terms III, step 6", "most * L / 100 * F / 100", () -> {
             SmallCraft craft = Check.flying("panel p 199 1;");
@@ -599,11 +704,16 @@ public final class FlightEdgesTest {
             least.run(1);
             Check.due("the least one", least.craft(26), 0);
         });
-        Check.sentence("Terms III, step 6", "a TRACKER: first at = (at + LIMIT(OFF(at, G1), 0 - step, step)) MOD 3600, then with OFF(G1, at)", () -> {
+        Check.sentence("Terms III, step 6",
+            "a TRACKER: first at = (at + LIMIT(OFF(at, G1), 0 - step, step)) MOD 3600, then with OFF(G1, at)", () -> {
             SmallCraft craft = Check.flying("tracker p 100 3;");
             Check.due("at", craft.part(0, 56), 2720);
             craft.run(1);
             Check.row("k is 875 / 120", new int[] {craft.part(0, 56), craft.craft(26)}, 2725, 51);
+            craft.run(7);
+            Check.row("k is 840 / 120", new int[] {craft.part(0, 56), craft.craft(26)}, 2760, 51);
+            craft.run(1);
+            Check.row("k is 835 / 120", new int[] {craft.part(0, 56), craft.craft(26)}, 2765, 64);
             Check.until(craft, 175);
             Check.row("just ahead of 0", new int[] {craft.part(0, 56), craft.craft(26)}, 3595, 100);
             craft.run(1);
@@ -624,14 +734,17 @@ public final class FlightEdgesTest {
     }
 
     private static void sources() {
-        Check.sentence("Terms III, step 6", "GENERATOR: if its tank is not BROKEN and has a level above 0: most, and if t MOD 8 is 0 that level is less by 1.", () -> {
+        Check.sentence("Terms III, step 6",
+            "GENERATOR: if its tank is not BROKEN and has a level above 0: most, and if t MOD 8 is 0 that "
+            + "level is less by 1.", () -> {
             SmallCraft craft = Check.flying("tank t 2;reactor r 50 0;");
             int[] ticks = {1, 2, 8, 9, 10};
             int[] levels = {1, 1, 1, 0, 0};
             int[] supply = {50, 50, 50, 50, 0};
             for (int k = 0; k < ticks.length; k++) {
                 Check.until(craft, ticks[k]);
-                Check.row("behind " + ticks[k] + " ticks", new int[] {craft.part(0, LEVEL), craft.craft(26)}, levels[k], supply[k]);
+                Check.row("behind " + ticks[k] + " ticks", new int[] {craft.part(0, LEVEL), craft.craft(26)},
+                    levels[k], supply[k]);
             }
             SmallCraft two = Check.flying("tank t 1;reactor r 50 0;reactor s 70 0;");
             two.run(1);
@@ -653,13 +766,15 @@ public final class FlightEdgesTest {
             Check.row("neither fuel nor a turn", new int[] {craft.part(0, LEVEL), craft.part(6, 56)}, before);
             craft.command(4, 4, 0);
             craft.run(1);
-            Check.row("a new reactor, but its tank is broken", new int[] {craft.part(0, BROKEN), craft.part(0, LEVEL), craft.craft(26)},
+            Check.row("a new reactor, but its tank is broken", new int[] {craft.part(0, BROKEN), craft.part(0, LEVEL),
+                craft.craft(26)},
                 1, before[0], 0);
             craft.command(4, 0, 0);
             craft.run(1);
             Check.due("a new tank", craft.craft(26), 50);
         });
-        Check.sentence("Terms III, step 6", "DEMAND is NEED of all LOADS that are ON and of all SOURCES that are not BROKEN.", () -> {
+        Check.sentence("Terms III, step 6",
+            "DEMAND is NEED of all LOADS that are ON and of all SOURCES that are not BROKEN.", () -> {
             SmallCraft craft = Check.flying("heater h 5;tracker p 200 0;panel q 1 0;battery b 9;");
             craft.run(1);
             Check.due("a tracker's 3", craft.craft(27), 3);
@@ -671,7 +786,8 @@ public final class FlightEdgesTest {
     }
 
     private static void batteries() {
-        Check.sentence("Terms III, step 6", "NET above 0: its level grows by the least of NET, top, room - level, NET is less by that", () -> {
+        Check.sentence("Terms III, step 6",
+            "NET above 0: its level grows by the least of NET, top, room - level, NET is less by that", () -> {
             SmallCraft top = Check.flying("battery b 100;panel p 9 0;");
             int[] got = new int[5];
             for (int k = 0; k < 5; k++) {
@@ -682,6 +798,9 @@ public final class FlightEdgesTest {
             SmallCraft net = Check.flying("battery b 100;panel p 7 0;");
             net.run(1);
             Check.due("NET 7 is the least", net.part(0, LEVEL), 82);
+            SmallCraft one = Check.flying("battery b 100;panel p 1 0;");
+            one.run(1);
+            Check.due("NET 1", one.part(0, LEVEL), 76);
             SmallCraft three = Check.flying("battery a 100;battery b 100;battery c 100;panel p 10 0;");
             int[] tops = row(three, 0, 3, 13);
             three.run(1);
@@ -690,7 +809,8 @@ public final class FlightEdgesTest {
             zero.run(1);
             Check.row("NET 0", new int[] {zero.part(0, LEVEL), zero.craft(16)}, 75, 0);
         });
-        Check.sentence("Terms III, step 6", "below 0: its level is less by the least of 0 - NET, top, level, NET grows by that", () -> {
+        Check.sentence("Terms III, step 6",
+            "below 0: its level is less by the least of 0 - NET, top, level, NET grows by that", () -> {
             SmallCraft net = Check.flying("battery b 100;gyro g 6 9 0;", 1);
             net.run(1);
             Check.row("7 is the least", new int[] {net.part(0, LEVEL), net.craft(16), net.craft(27)}, 68, 0, 7);
@@ -710,10 +830,19 @@ public final class FlightEdgesTest {
             two.run(1);
             Check.row("the next one gives the rest", row(two, 0, 3, LEVEL), 75 - tops[0], 75 - (10 - tops[0]), 75);
         });
+        Check.sentence("Terms III, step 6", "(a least below 0 counts as 0)", () -> {
+            SmallCraft full = Check.flying("battery b 1;cellpack c 1 1;panel p 200 0;");
+            full.run(20);
+            Check.row("no more than the room", row(full, 0, 2, LEVEL), 1, 1);
+            SmallCraft empty = Check.flying("battery b 1;cellpack c 1 1;tracker p 1 2;");
+            empty.run(20);
+            Check.row("no less than 0", row(empty, 0, 2, LEVEL), 0, 0);
+        });
         Check.sentence("Terms III, step 6", "Each BATTERY that is not BROKEN", () -> {
             SmallCraft cold = Check.flying("battery b 10;tank u 1;tank v 1;tank w 2000;battery e 2000;panel p 200 0;");
             cold.run(625);
-            Check.row("one is broken, one is not", new int[] {cold.part(0, BROKEN), cold.part(4, BROKEN), cold.part(5, BROKEN)}, 1, 0, 1);
+            Check.row("one is broken, one is not", new int[] {cold.part(0, BROKEN), cold.part(4, BROKEN), cold.part(5,
+                BROKEN)}, 1, 0, 1);
             cold.command(4, 5, 0);
             int[] before = {cold.part(0, LEVEL), cold.part(4, LEVEL)};
             cold.run(1);
@@ -725,9 +854,12 @@ public final class FlightEdgesTest {
             dark.command(4, 6, 0);
             Check.on(dark, 6);
             dark.run(1);
-            Check.row("the whole one gives all", new int[] {dark.part(0, LEVEL), dark.part(4, LEVEL), dark.craft(16)}, 7, 1500 - 4, 0);
+            Check.row("the whole one gives all", new int[] {dark.part(0, LEVEL), dark.part(4, LEVEL), dark.craft(16)},
+                7, 1500 - 4, 0);
         });
-        Check.sentence("Terms III, step 6", "If NET is below 0 still: a BROWNOUT: the LOAD that is ON with the greatest line, of several that of the greatest number, goes OFF.", () -> {
+        Check.sentence("Terms III, step 6",
+            "If NET is below 0 still: a BROWNOUT: the LOAD that is ON with the greatest line, of several "
+            + "that of the greatest number, goes OFF.", () -> {
             SmallCraft even = Check.flying("battery b 100;gyro g 7 9 0;", 1);
             even.run(1);
             Check.row("NET 0 is not below 0", new int[] {even.craft(27), even.craft(16), even.part(1, ON)}, 8, 0, 1);
@@ -752,7 +884,10 @@ public final class FlightEdgesTest {
 
     // ---- III. Hoses and heat
     private static void hoses() {
-        Check.sentence("Terms III, step 7", "from the one with the higher level (one, if they are alike) to the other one go the least of flow, the level of the first, room less level of the second, half of the difference of their levels.", () -> {
+        Check.sentence("Terms III, step 7",
+            "from the one with the higher level (one, if they are alike) to the other one go the least of "
+            + "flow, the level of the first, room less level of the second, half of the difference of their "
+            + "levels.", () -> {
             SmallCraft room = Check.flying("tank a 100;tank b 10;reactor r 9 1;hose h 1 0 3;");
             room.run(1);
             Check.row("room for 1", row(room, 0, 2, LEVEL), 99, 10);
@@ -784,7 +919,8 @@ public final class FlightEdgesTest {
                 SmallCraft craft = Check.flying("tank b 2000;tank y 2000;tank u 1;tank v 1;tank a 100;reactor s 200 4;tank w 90;tank z 1;hose h "
                     + (which == 0 ? "0 4" : "4 0") + " 9;");
                 craft.run(470);
-                Check.row("one tank is broken", new int[] {craft.part(0, BROKEN), craft.part(4, BROKEN), craft.part(5, BROKEN)}, 0, 1, 1);
+                Check.row("one tank is broken", new int[] {craft.part(0, BROKEN), craft.part(4, BROKEN), craft.part(5,
+                    BROKEN)}, 0, 1, 1);
                 craft.command(4, 8, 0);
                 int[] before = {craft.part(0, LEVEL), craft.part(4, LEVEL)};
                 Check.due("it is not full", before[1] < 100, true);
@@ -806,25 +942,38 @@ public final class FlightEdgesTest {
     }
 
     private static void heat() {
-        Check.sentence("Terms III, step 8", ", -500, 1500), P being NEED of a LOAD that is ON (four times that of HEATERS), else 0.", () -> {
+        Check.sentence("Terms III, step 8",
+            ", -500, 1500), P being NEED of a LOAD that is ON (four times that of HEATERS), else 0.", () -> {
             // Seventeen pipes of flow 4 move more than the difference, so that it grows from tick to tick.
             SmallCraft craft = Check.flying(many("battery a 9;heater b 50;panel c 200 0;", 17, "pipe", "0 1"), 1);
             Check.due("flow", craft.part(3, 61), 4);
-            craft.run(1);
-            Check.row("tick 0: 200 - 50 / 32, 200 + 248 * 10 / 15 - 50 / 39", row(craft, 0, 2, HEAT), 199, 364);
-            craft.run(14);
-            Check.row("tick 14: no more than 1500", new int[] {craft.part(0, HEAT), craft.part(1, HEAT)}, -375, 1500);
-            craft.run(1);
-            Check.row("tick 15: no less than -500", row(craft, 0, 2, HEAT), 1500, -500);
-            craft.run(1);
-            Check.row("tick 16", row(craft, 0, 2, HEAT), -500, 1500);
+            int tooMuch = 0;
+            int tooLittle = 0;
+            for (int t = 0; t <= 20; t++) {
+                int[] h = row(craft, 0, 3, HEAT);
+                int between = h[1] - h[0];
+                // The heater works until it is broken.
+                int work = h[1] <= 900 && craft.part(1, BROKEN) == 0 ? 4 * 62 * 10 / 15 : 0;
+                int low = h[0] + between / 16 + 17 * (between * 4 / 64) - (h[0] - 150) / 32;
+                int high = h[1] + work - between / 16 + (h[2] - h[1]) / 16 - 17 * (between * 4 / 64) - (h[1] - 150) / 39;
+                craft.run(1);
+                Check.row("heats of tick " + t, row(craft, 0, 2, HEAT), Math.max(-500, Math.min(1500, low)),
+                    Math.max(-500, Math.min(1500, high)));
+                tooMuch += low > 1500 || high > 1500 ? 1 : 0;
+                tooLittle += low < -500 || high < -500 ? 1 : 0;
+            }
+            Check.row("both limits were met, and are reached", new int[] {tooMuch > 2 ? 1 : 0, tooLittle > 2 ? 1 : 0,
+                craft.part(0, HEAT),
+                craft.part(1, HEAT)}, 1, 1, -500, 1500);
         });
-        Check.sentence("Terms III, step 8", "over the units with the next lesser and the next greater number, of (theirs - H) / 16", () -> {
+        Check.sentence("Terms III, step 8",
+            "over the units with the next lesser and the next greater number, of (theirs - H) / 16", () -> {
             SmallCraft alone = Check.flying("panel p 200 0;heater h 50;tank t 1;", 1);
             alone.run(1);
             Check.row("no difference yet", row(alone, 0, 3, HEAT), 199, 364, 199);
             alone.run(1);
-            Check.row("both neighbours, at the ends one", row(alone, 0, 3, HEAT), 199 + 165 / 16 - 49 / 39, 364 + 165 - 165 / 16 - 165 / 16 - 214 / 39,
+            Check.row("both neighbours, at the ends one", row(alone, 0, 3, HEAT), 199 + 165 / 16 - 49 / 39,
+                364 + 165 - 165 / 16 - 165 / 16 - 214 / 39,
                 199 + 165 / 16 - 49 / 32);
         });
         Check.sentence("Terms III, step 8", "(once each; both the same unit: nothing)", () -> {
@@ -851,9 +1000,12 @@ public final class FlightEdgesTest {
             int heat = craft.part(1, HEAT);
             int next = craft.part(2, HEAT);
             craft.run(1);
-            Check.due("it leads nothing", craft.part(1, HEAT), heat + (200 - heat) / 16 + (next - heat) / 16 - (heat + 250) / 232);
+            Check.due("it leads nothing", craft.part(1, HEAT),
+                heat + (200 - heat) / 16 + (next - heat) / 16 - (heat + 250) / 232);
         });
-        Check.sentence("Terms III, step 8", "Then each unit that is not BROKEN with H above 900 or below -200 is BROKEN, by a FAILURE: it goes OFF.", () -> {
+        Check.sentence("Terms III, step 8",
+            "Then each unit that is not BROKEN with H above 900 or below -200 is BROKEN, by a FAILURE: it "
+            + "goes OFF.", () -> {
             SmallCraft cold = Check.flying("tank t 1;");
             cold.run(430);
             Check.row("-200 is not below", new int[] {cold.part(0, HEAT), cold.part(0, BROKEN), cold.craft(17)}, -200, 0, 0);
@@ -863,16 +1015,20 @@ public final class FlightEdgesTest {
             Check.due("a broken one fails no more", cold.craft(17), 1);
             SmallCraft warm = Check.flying("heater h 13;tank t 100;panel p 200 0;", 0);
             warm.run(12);
-            Check.row("900 is not above", new int[] {warm.part(0, HEAT), warm.part(0, BROKEN), warm.part(0, ON), warm.craft(17)}, 900, 0, 1, 0);
+            Check.row("900 is not above", new int[] {warm.part(0, HEAT), warm.part(0, BROKEN), warm.part(0, ON),
+                warm.craft(17)}, 900, 0, 1, 0);
             SmallCraft hot = Check.flying("heater h 32;tank t 1;panel p 200 0;", 0);
             hot.run(5);
             Check.row("whole", Check.parts(hot, 0, BROKEN, ON), 0, 1);
             hot.run(1);
-            Check.row("901 is", new int[] {hot.part(0, HEAT), hot.part(0, BROKEN), hot.part(0, ON), hot.craft(17)}, 901, 1, 0, 1);
+            Check.row("901 is", new int[] {hot.part(0, HEAT), hot.part(0, BROKEN), hot.part(0, ON), hot.craft(17)},
+                901, 1, 0, 1);
             hot.run(100);
             Check.row("it stays broken", Check.parts(hot, 0, BROKEN, ON), 1, 0);
         });
-        Check.sentence("Terms III, step 8", "Then each THERMO that is not BROKEN: H of unit of below target - band: it is ON, above target + band: OFF.", () -> {
+        Check.sentence("Terms III, step 8",
+            "Then each THERMO that is not BROKEN: H of unit of below target - band: it is ON, above target "
+            + "+ band: OFF.", () -> {
             // Behind tick 0 the tank has 199; the thermo's band is 5 + 2 * 5 + 6 / 8.
             int[] targets = {213, 214, 215, 216};
             int[] on = {0, 0, 1, 1};
@@ -891,7 +1047,8 @@ public final class FlightEdgesTest {
             }
             SmallCraft hot = Check.flying("panel p 200 0;tank t 1;thermo o 50 1 900;", 2);
             hot.run(8);
-            Check.row("a broken one stays off", new int[] {hot.part(2, BROKEN), hot.part(2, ON), hot.part(1, HEAT) < 800 ? 1 : 0}, 1, 0, 1);
+            Check.row("a broken one stays off", new int[] {hot.part(2, BROKEN), hot.part(2, ON), hot.part(1,
+                HEAT) < 800 ? 1 : 0}, 1, 0, 1);
         });
     }
 
@@ -915,10 +1072,13 @@ public final class FlightEdgesTest {
             int[] levels = {0, 12, 12, 24, 24, 36};
             for (int k = 0; k < ticks.length; k++) {
                 Check.until(craft, ticks[k]);
-                Check.row("behind " + ticks[k] + " ticks", new int[] {craft.part(0, LEVEL), craft.craft(18)}, levels[k], levels[k] / 12);
+                Check.row("behind " + ticks[k] + " ticks", new int[] {craft.part(0, LEVEL), craft.craft(18)},
+                    levels[k], levels[k] / 12);
             }
         });
-        Check.sentence("Terms III, step 9", "165; t / 256 MOD 256; t MOD 256; MODE; 100 * all BATTERIES' levels / all their rooms (0 without)", () -> {
+        Check.sentence("Terms III, step 9",
+            "165; t / 256 MOD 256; t MOD 256; MODE; 100 * all BATTERIES' levels / all their rooms (0 "
+            + "without)", () -> {
             SmallCraft craft = Check.flying("recorder r 2000;battery b 1999;cellpack c 2000 7;");
             Check.plan(craft, "each 1000 wipe r;");
             int levels = craft.part(1, LEVEL) + craft.part(2, LEVEL);
@@ -930,17 +1090,70 @@ public final class FlightEdgesTest {
                 craft.command(2, t % 4, 0);
                 craft.run(1);
                 int mode = craft.craft(2);
-                int[] got = {craft.kept(0, 0), craft.kept(0, 1), craft.kept(0, 2), craft.kept(0, 3), craft.kept(0, 4), craft.kept(0, 5)};
+                int[] got = {craft.kept(0, 0), craft.kept(0, 1), craft.kept(0, 2), craft.kept(0, 3), craft.kept(0, 4),
+                    craft.kept(0, 5)};
                 Check.row("tick " + t, got, 165, t / 256 % 256, t % 256, mode, 100 * 2811 / 3999, craft.craft(25));
             }
             SmallCraft bare = Check.flying("recorder r 20;");
             bare.run(25);
             Check.due("without batteries", bare.kept(0, 4), 0);
-            SmallCraft full = Check.flying("recorder r 20;battery b 4;panel p 9 0;");
-            full.run(25);
-            Check.due("full", full.kept(0, 4), 100);
+            for (int room : new int[] {1, 2, 4, 2000}) {
+                SmallCraft full = Check.flying("battery b " + room + ";recorder r 20;panel p " + (room > 9 ? 200 : 9) + " 0;");
+                full.run(25);
+                Check.due("of " + room, full.kept(1, 4), 100 * full.part(0, LEVEL) / room);
+                Check.due("full or not", full.part(0, LEVEL) == room, room < 9);
+            }
+            SmallCraft cold = Check.flying("battery b 10;tank u 1;tank v 1;tank w 2000;recorder r 2000;tank y 2000;");
+            cold.run(525);
+            Check.row("a broken battery counts, too", new int[] {cold.part(0, BROKEN), cold.part(4, BROKEN),
+                cold.kept(4, 20 * 12 + 2),
+                cold.kept(4, 20 * 12 + 4)}, 1, 0, 524 - 512, 70);
         });
-        Check.sentence("Terms III, step 9", "a CHECK of these eleven (0 at first; for each byte: that xor the byte, then eight times: twice that, MOD 256, xor 7 if it was 128 or more)", () -> {
+        Check.sentence("Terms III, step 9",
+            "L; G0 / 16, G1 / 16, G2 / 16; how many units are BROKEN; how many LOADS are ON", () -> {
+            SmallCraft craft = Check.flying("wheel v 1 1;cellpack c 2000 8;wheel w 1 1;wheel x 1 2;wheel y 1 2;recorder r 2000;", 0, 2, 3, 4);
+            craft.command(2, 1, 0);
+            craft.command(3, 1, 1800);
+            craft.command(3, 2, 1799);
+            craft.run(1);
+            craft.command(2, 0, 0);
+            craft.run(24);
+            Check.row("angles", Check.crafts(craft, 4, 5), 3575, 25);
+            Check.row("of tick 24", new int[] {craft.kept(5, 5), craft.kept(5, 6), craft.kept(5, 7), craft.kept(5, 8),
+                craft.kept(5, 9),
+                craft.kept(5, 10)}, 100, 0, 223, 1, 0, 4);
+            craft.command(1, 0, 0);
+            craft.run(25);
+            Check.row("of tick 49", new int[] {craft.kept(5, 17), craft.kept(5, 18), craft.kept(5, 19), craft.kept(5,
+                20), craft.kept(5, 21),
+                craft.kept(5, 22)}, 100, 0, 221, 3, 0, 3);
+            SmallCraft cold = Check.flying("tank t 1;tank u 1;tank a 1;tank b 1;recorder r 2000;tank v 2000;");
+            cold.run(475);
+            int broken = 0;
+            for (int unit = 0; unit < 6; unit++) {
+                broken += cold.part(unit, BROKEN);
+            }
+            Check.row("the first unit, too, is broken", new int[] {cold.part(0, BROKEN), cold.part(4, BROKEN),
+                cold.kept(4, 18 * 12 + 9)}, 1, 0, broken);
+            Check.due("no load is on", cold.kept(4, 18 * 12 + 10), 0);
+            // The frame comes behind the heat: a thermo that goes on in its tick counts. The tank cools by more than 1 a tick.
+            String book = "tank t 1;thermo o 5 0 %d;recorder r 2000;";
+            SmallCraft probe = Check.flying(book.replace("%d", "-300"));
+            probe.run(374);
+            int warmer = probe.part(0, HEAT);
+            probe.run(1);
+            int cooler = probe.part(0, HEAT);
+            Check.row("cooling, no load is on", new int[] {cooler < warmer ? 1 : 0, probe.kept(2, 14 * 12 + 10)}, 1, 0);
+            SmallCraft late = Check.flying(book.replace("%d", "" + (cooler + 1 + probe.part(1, 26))));
+            late.run(374);
+            Check.row("not yet", new int[] {late.part(1, ON), late.part(0, HEAT)}, 0, warmer);
+            late.run(1);
+            Check.row("in the tick of the frame", new int[] {late.part(1, ON), late.kept(2, 14 * 12 + 2), late.kept(2,
+                14 * 12 + 10)}, 1, 374 - 256, 1);
+        });
+        Check.sentence("Terms III, step 9",
+            "a CHECK of these eleven (0 at first; for each byte: that xor the byte, then eight times: twice "
+            + "that, MOD 256, xor 7 if it was 128 or more)", () -> {
             SmallCraft craft = Check.flying("recorder r 2000;heater h 1;" + STORE + "tank t 1;tank u 1;tank v 1;", 1);
             craft.run(25);
             int[] bytes = new int[12];
@@ -960,20 +1173,36 @@ public final class FlightEdgesTest {
             Check.row("tick 574", later, 165, 2, 574 - 512, 0, charge, 0, angle, 0, 0, broken, 1,
                 check(165, 2, 62, 0, charge, 0, angle, 0, 0, broken, 1));
         });
-        Check.sentence("Terms III, step 9", "has room for 12 bytes more than its level (which grows by 12); without one the frame is LOST.", () -> {
+        Check.sentence("Terms III, step 9", "twice that, MOD 256, xor 7 if it was 128 or more", () -> {
+            for (int book = 0; book < 4; book++) {
+                SmallCraft craft = Check.flying("recorder r 2000;cellpack c " + (1000 + 300 * book) + " 8;tank t 2000;");
+                craft.run(1000);
+                for (int frame = 0; frame < 40; frame++) {
+                    int[] bytes = new int[11];
+                    for (int i = 0; i < 11; i++) {
+                        bytes[i] = craft.kept(0, 12 * frame + i);
+                    }
+                    Check.due("frame " + frame, craft.kept(0, 12 * frame + 11), check(bytes));
+                }
+            }
+        });
+        Check.sentence("Terms III, step 9",
+            "has room for 12 bytes more than its level (which grows by 12); without one the frame is LOST.", () -> {
             int[] rooms = {23, 24, 25, 35, 36};
             int[] kept = {1, 2, 2, 2, 3};
             for (int k = 0; k < rooms.length; k++) {
                 SmallCraft craft = Check.flying("recorder r " + rooms[k] + ";");
                 craft.run(100);
-                Check.row("room " + rooms[k], new int[] {craft.part(0, LEVEL), craft.craft(18), craft.craft(19)}, 12 * kept[k], kept[k], 4 - kept[k]);
+                Check.row("room " + rooms[k], new int[] {craft.part(0, LEVEL), craft.craft(18), craft.craft(19)},
+                    12 * kept[k], kept[k], 4 - kept[k]);
             }
             SmallCraft none = Check.flying("tank t 9;");
             none.run(50);
             Check.row("no recorder", Check.crafts(none, 18, 19), 0, 2);
             SmallCraft two = Check.flying("recorder r 23;recorder s 23;");
             two.run(75);
-            Check.row("the next one", new int[] {two.part(0, LEVEL), two.part(1, LEVEL), two.craft(18), two.craft(19)}, 12, 12, 2, 1);
+            Check.row("the next one", new int[] {two.part(0, LEVEL), two.part(1, LEVEL), two.craft(18),
+                two.craft(19)}, 12, 12, 2, 1);
             SmallCraft cold = Check.flying("recorder r 50;tank a 1;tank b 1;tank y 2000;recorder s 2000;tank z 2000;");
             cold.run(515);
             Check.row("the first is broken", new int[] {cold.part(0, BROKEN), cold.part(4, BROKEN)}, 1, 0);
@@ -985,21 +1214,27 @@ public final class FlightEdgesTest {
     }
 
     private static void down() {
-        Check.sentence("Terms III, step 10", "as many bytes as rate (fewer, if there are not so many) go down: those that were kept first by the first RECORDER that is not BROKEN and keeps any, then by the next one; levels are less by that.", () -> {
+        Check.sentence("Terms III, step 10",
+            "as many bytes as rate (fewer, if there are not so many) go down: those that were kept first by "
+            + "the first RECORDER that is not BROKEN and keeps any, then by the next one; levels are less by "
+            + "that.", () -> {
             SmallCraft craft = Check.flying(STORE + "recorder r 20;recorder s 20;recorder u 40;radio d 1 40;", 5);
             craft.run(100);
             Check.row("kept", row(craft, 2, 3, LEVEL), 12, 12, 24);
             craft.run(1);
             Check.row("40 of 48, recorder by recorder", row(craft, 2, 3, LEVEL), 0, 0, 8);
             Check.row("sent", new int[] {craft.part(5, 51), craft.craft(20)}, 40, 40);
-            Check.row("in their order", new int[] {craft.down(39), craft.down(37), craft.down(25), craft.down(13), craft.down(1)}, 165, 24, 49, 74, 99);
+            Check.row("in their order", new int[] {craft.down(39), craft.down(37), craft.down(25), craft.down(13),
+                craft.down(1)}, 165, 24, 49, 74, 99);
             craft.run(1);
-            Check.row("the 8 that are left", new int[] {craft.part(4, LEVEL), craft.part(5, 51), craft.craft(20)}, 0, 48, 48);
+            Check.row("the 8 that are left", new int[] {craft.part(4, LEVEL), craft.part(5, 51), craft.craft(20)}, 0,
+                48, 48);
             craft.run(1);
             Check.row("nothing is left", new int[] {craft.part(5, 51), craft.craft(20)}, 48, 48);
             SmallCraft both = Check.flying(STORE + "recorder r 100;radio d 1 1;radio e 1 2;radio f 1 3;", 3, 5);
             both.run(101);
-            Check.row("each radio that is on", new int[] {both.part(3, 51), both.part(4, 51), both.part(5, 51), both.craft(20)}, 1, 0, 3, 4);
+            Check.row("each radio that is on", new int[] {both.part(3, 51), both.part(4, 51), both.part(5, 51),
+                both.craft(20)}, 1, 0, 3, 4);
             SmallCraft cold = Check.flying("recorder r 50;tank a 1;tank b 1;tank y 2000;recorder s 2000;" + STORE + "radio d 1 5;");
             cold.run(700);
             Check.row("the first is broken", new int[] {cold.part(0, BROKEN), cold.part(4, BROKEN)}, 1, 0);
@@ -1025,7 +1260,8 @@ public final class FlightEdgesTest {
             craft.run(22);
             Check.due("off", craft.craft(20), 3);
         });
-        Check.sentence("Promise 14", "The i-th latest byte that went down (0 the latest; 500 are kept); NONE if there is none such.", () -> {
+        Check.sentence("Promise 14",
+            "The i-th latest byte that went down (0 the latest; 500 are kept); NONE if there is none such.", () -> {
             SmallCraft craft = Check.flying("recorder r 2000;panel p 200 0;camera m 4 1 0;radio d 1 1;", 2, 3);
             Check.due("none yet", craft.down(0), -1);
             craft.run(101);
@@ -1045,7 +1281,8 @@ public final class FlightEdgesTest {
             Check.load(fast, "tank t 9;");
             Check.due("a new load", fast.down(0), -1);
         });
-        Check.sentence("Terms III, step 11", "If there was a BROWNOUT or a FAILURE in this TICK, and MODE is not 0, MODE is 3.", () -> {
+        Check.sentence("Terms III, step 11",
+            "If there was a BROWNOUT or a FAILURE in this TICK, and MODE is not 0, MODE is 3.", () -> {
             for (int mode = 0; mode <= 3; mode++) {
                 SmallCraft dim = Check.flying("tracker p 1 2;");
                 dim.command(2, mode, 0);
@@ -1068,13 +1305,16 @@ public final class FlightEdgesTest {
     private static void run() {
         Check.sentence("Promise 6", "So many TICKS: how many there were ever since load().", () -> {
             SmallCraft craft = Check.flying("tank t 5;");
-            Check.row("runs", new int[] {craft.run(0), craft.run(1), craft.run(0), craft.run(1000), craft.run(999)}, 0, 1, 1, 1001, 2000);
+            Check.row("runs", new int[] {craft.run(0), craft.run(1), craft.run(0), craft.run(1000), craft.run(999)},
+                0, 1, 1, 1001, 2000);
             Check.load(craft, "tank");
             Check.due("a fault", craft.run(1), 2001);
             Check.load(craft, "tank t 5;");
             Check.row("since load()", new int[] {craft.craft(1), craft.run(2)}, 0, 2);
         });
-        Check.sentence("Promise 6", "IllegalStateException when there are no units; then IllegalArgumentException when n is not 0 .. 1000.", () -> {
+        Check.sentence("Promise 6",
+            "IllegalStateException when there are no units; then IllegalArgumentException when n is not 0 "
+            + ".. 1000.", () -> {
             SmallCraft craft = new SmallCraft();
             for (int n : new int[] {-1, 0, 1, 1000, 1001, Integer.MIN_VALUE, Integer.MAX_VALUE}) {
                 Check.fails("run(" + n + ") without units", IllegalStateException.class, () -> craft.run(n));
@@ -1109,13 +1349,15 @@ public final class FlightEdgesTest {
                 Check.due("craft(" + what + ")", craft.craft(what), 0);
             }
         });
-        Check.sentence("Promise 16", "0 units, 1 TICKS, 2 MODE, 3 .. 5 G0 .. G2, 6 .. 8 R0 .. R2, 9 .. 11 the aims", () -> {
+        Check.sentence("Promise 16",
+            "0 units, 1 TICKS, 2 MODE, 3 .. 5 G0 .. G2, 6 .. 8 R0 .. R2, 9 .. 11 the aims", () -> {
             SmallCraft craft = Check.flying("tank t 1;");
             craft.command(3, 0, 3599);
             craft.command(3, 1, 0);
             craft.command(3, 2, 1);
             craft.run(1);
-            Check.row("the aims at their edges", Check.crafts(craft, 0, 1, 2, 3, 4, 5, 6, 7, 8, 9, 10, 11), 1, 1, 0, 0, 0, 0, 1, 0, 0, 3599, 0, 1);
+            Check.row("the aims at their edges", Check.crafts(craft, 0, 1, 2, 3, 4, 5, 6, 7, 8, 9, 10, 11), 1, 1, 0,
+                0, 0, 0, 1, 0, 0, 3599, 0, 1);
         });
     }
 

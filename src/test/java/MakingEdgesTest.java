@@ -46,7 +46,8 @@ public final class MakingEdgesTest {
 
     private static void loadNumbers() {
         Check.sentence("Terms II, layer 7", "heater: 1 .. 50", () -> range("heater x", 1, 50, ""));
-        Check.sentence("Terms II, layer 8", "thermo: 1 .. 50; the number of a unit that stands ahead in the book; -300 .. 900", () -> {
+        Check.sentence("Terms II, layer 8",
+            "thermo: 1 .. 50; the number of a unit that stands ahead in the book; -300 .. 900", () -> {
             range("thermo x", 1, 50, " 0 0");
             unit("thermo x 1", " 0", 0, 1, 2);
             range("thermo x 1 0", -300, 900, "");
@@ -63,7 +64,8 @@ public final class MakingEdgesTest {
             range("probe x 1", 1, 50, " 0");
             unit("probe x 1 1", "", 0, 1, 2);
         });
-        Check.sentence("Terms II, layer 14", "camera: 1 .. 50, 1 .. 50, the number of a recorder that stands ahead", () -> {
+        Check.sentence("Terms II, layer 14",
+            "camera: 1 .. 50, 1 .. 50, the number of a recorder that stands ahead", () -> {
             range("camera x", 1, 50, " 1 1");
             range("camera x 1", 1, 50, " 1");
             unit("camera x 1 1", "", 1);
@@ -92,7 +94,8 @@ public final class MakingEdgesTest {
             range("coil x", 1, 50, " 0");
             range("coil x 1", 0, 2, "");
         });
-        Check.sentence("Terms II, layer 18", "jet: 1 .. 50, 0 .. 2, the number of a tank that stands ahead", () -> jetNumbers("jet"));
+        Check.sentence("Terms II, layer 18",
+            "jet: 1 .. 50, 0 .. 2, the number of a tank that stands ahead", () -> jetNumbers("jet"));
         Check.sentence("Terms II, layer 19", "pulser: like jet", () -> jetNumbers("pulser"));
     }
 
@@ -119,6 +122,17 @@ public final class MakingEdgesTest {
             unit("hose x 0", " 1", 0);
             range("hose x 0 0", 1, 9, "");
         });
+        Check.sentence("Terms II, layers 14 and 18", "the number of a tank that stands ahead", () -> {
+            // What stood behind in a book that was read before is no unit that stands ahead.
+            SmallCraft craft = Check.flying("tank a 9;tank b 9;tank c 9;recorder d 20;recorder e 20;");
+            String[] texts = {"tank a 9;jet j 1 0 2;", "tank a 9;reactor j 1 2;", "tank a 9;hose j 0 2 1;",
+                "tank a 9;tank b 9;tank c 9;camera j 1 1 3;",
+                "tank a 9;tank b 9;tank c 9;camera j 1 1 4;", "tank a 9;pipe j 0 2;", "tank a 9;thermo j 1 3 0;"};
+            for (String text : texts) {
+                Check.due(text, Check.load(craft, text), -1);
+                Check.due("its fault", craft.fault(0), 5);
+            }
+        });
         Check.sentence("Terms II", "A unit that is told to be of a KIND is of that layer, not of one on it.", () -> {
             String stores = "battery b 9;cellpack c 9 1;recorder r 20;tank t 9;";
             String[] lines = {"jet x 1 0 ", "pulser x 1 0 ", "reactor x 1 ", "camera x 1 1 "};
@@ -142,7 +156,9 @@ public final class MakingEdgesTest {
 
     // ---- II. The layers
     private static void partsUntilTheyCome() {
-        Check.sentence("Terms II", "All parts are 0 until they come, or a FITTING gives them something; but a CONSTANT has its number all the time.", () -> {
+        Check.sentence("Terms II",
+            "All parts are 0 until they come, or a FITTING gives them something; but a CONSTANT has its "
+            + "number all the time.", () -> {
             SmallCraft craft = Check.flying("cellpack c 800 4;coil k 3 2;tracker p 90 2;recorder r 50;tank t 9;pulser l 9 2 4;");
             Check.row("grade, ahead of its layer: 2 + 0 + 3", Check.parts(craft, 0, 5, 8, 12), 5, 5, 3);
             Check.row("pole, ahead of its layer: 7 + 0 - 4", Check.parts(craft, 1, 41, 46), 3, 7);
@@ -156,13 +172,17 @@ public final class MakingEdgesTest {
             }
             Check.row("kick 3 again", Check.parts(craft, 1, 41, 42), 3, 7);
         });
-        Check.sentence("Terms II", "the answer is that of its uppermost layer (made or not) that tells one, from the parts as they are.", () -> {
+        Check.sentence("Terms II",
+            "the answer is that of its uppermost layer (made or not) that tells one, from the parts as they "
+            + "are.", () -> {
             SmallCraft craft = Check.flying("tank t 9;pulser l 9 2 0;radio r 5 9;recorder d 20;camera m 4 3 3;");
             Check.row("widths", new int[] {craft.part(1, 5), craft.part(2, 5), craft.part(4, 5)}, 3, 2, 1);
             Check.row("a camera's channels ahead of its lens, and behind it", new int[] {craft.part(4, 30), craft.ask(4, 4)},
                 3, 3 + craft.part(4, 39));
         });
-        Check.sentence("Terms II", "The craft has DRAW (1, 2, 3, .., each time that it is taken: it goes on as long as the BOOK stands)", () -> {
+        Check.sentence("Terms II",
+            "The craft has DRAW (1, 2, 3, .., each time that it is taken: it goes on as long as the BOOK "
+            + "stands)", () -> {
             SmallCraft craft = Check.flying("heater h 5;");
             Check.row("the first serial", new int[] {craft.part(0, 2), craft.craft(12)}, 1, 2);
             craft.command(4, 0, 0);
@@ -179,7 +199,20 @@ public final class MakingEdgesTest {
             craft.command(4, 0, 0);
             Check.row("it goes on", new int[] {craft.part(0, 4), craft.craft(13)}, 6, 11);
             Check.load(craft, "cellpack c 9 1;tank t 9;");
-            Check.row("0 at first", new int[] {craft.part(0, 4), craft.craft(13), craft.craft(15), craft.note(0, 0)}, 0, 6, 7, 0);
+            Check.row("0 at first", new int[] {craft.part(0, 4), craft.craft(13), craft.craft(15), craft.note(0, 0)},
+                0, 6, 7, 0);
+        });
+        Check.sentence("Terms II, layer 6", "the craft's RESERVE (0 at first) grows by share", () -> {
+            SmallCraft craft = Check.flying("heater h 50;heater i 1;tank t 9;");
+            Check.due("two shares", craft.craft(14), 51);
+            craft.command(4, 2, 0);
+            Check.due("no load", craft.craft(14), 51);
+            craft.command(4, 0, 0);
+            Check.due("it grows again", craft.craft(14), 101);
+            Check.load(craft, "heater h 7;");
+            Check.due("0 at first", craft.craft(14), 7);
+            Check.load(craft, "tank t 7;");
+            Check.due("no share", craft.craft(14), 0);
         });
         Check.sentence("Terms II, layer 0", "width = SPAN, but at least 1; ADDRESS grows by width", () -> {
             String book = AHEAD + "battery a 1;cellpack b 1 1;thermo c 1 0 0;gyro d 1 1 0;finegyro e 1 1 0;suneye f 1 1;"
@@ -223,11 +256,14 @@ public final class MakingEdgesTest {
     }
 
     private static void restsOfDraw() {
-        Check.sentence("Terms II, layer 2", "wear = DRAW MOD 5", () -> wraps("tank t 9;battery x 9;", 1, 11, draw -> draw % 5));
+        Check.sentence("Terms II, layer 2",
+            "wear = DRAW MOD 5", () -> wraps("tank t 9;battery x 9;", 1, 11, draw -> draw % 5));
         Check.sentence("Terms II, layer 6", "line = (serial + DRAW) MOD 3", () ->
             wraps("tank t 9;heater x 9;", 1, 21, draw -> (draw - 1 + draw) % 3));
-        Check.sentence("Terms II, layer 9", "noise = DRAW MOD 7", () -> wraps("tank t 9;suneye x 9 9;", 1, 29, draw -> draw % 7));
-        Check.sentence("Terms II, layer 10", "drift = noise - 3", () -> wraps("tank t 9;gyro x 9 9 0;", 1, 33, draw -> draw % 7 - 3));
+        Check.sentence("Terms II, layer 9",
+            "noise = DRAW MOD 7", () -> wraps("tank t 9;suneye x 9 9;", 1, 29, draw -> draw % 7));
+        Check.sentence("Terms II, layer 10",
+            "drift = noise - 3", () -> wraps("tank t 9;gyro x 9 9 0;", 1, 33, draw -> draw % 7 - 3));
         Check.sentence("Terms II, layer 11", "drift becomes drift / 2; fine = DRAW MOD 4 + 1", () -> {
             wraps("battery b 9;finegyro x 9 9 0;", 1, 36, draw -> draw % 4 + 1);
             int[] halves = {-1, -1, 0, 0, 0, 1, 1};
@@ -240,11 +276,14 @@ public final class MakingEdgesTest {
                 craft.command(4, 0, 0);
             }
         });
-        Check.sentence("Terms II, layer 13", "shift = noise - 2", () -> wraps("tank t 9;probe x 9 9 0;", 1, 38, draw -> draw % 7 - 2));
+        Check.sentence("Terms II, layer 13",
+            "shift = noise - 2", () -> wraps("tank t 9;probe x 9 9 0;", 1, 38, draw -> draw % 7 - 2));
         Check.sentence("Terms II, layer 14", "lens = channels + DRAW MOD 3", () ->
             wraps("recorder r 20;camera x 9 9 0;", 1, 39, draw -> 3 + draw % 3));
-        Check.sentence("Terms II, layer 18", "gas = DRAW MOD 3 + 1", () -> wraps("tank t 9;jet x 9 0 0;", 1, 47, draw -> draw % 3 + 1));
-        Check.sentence("Terms II, layer 22", "wire = DRAW MOD 3", () -> wraps("tank t 9;panel x 9 0;", 1, 52, draw -> draw % 3));
+        Check.sentence("Terms II, layer 18",
+            "gas = DRAW MOD 3 + 1", () -> wraps("tank t 9;jet x 9 0 0;", 1, 47, draw -> draw % 3 + 1));
+        Check.sentence("Terms II, layer 22",
+            "wire = DRAW MOD 3", () -> wraps("tank t 9;panel x 9 0;", 1, 52, draw -> draw % 3));
         Check.sentence("Terms II, layer 26", "twist = SPAN + DRAW MOD 2", () ->
             wraps("battery b 9;pipe x 0 0;", 1, 58, draw -> 1 + draw % 2));
     }
@@ -288,6 +327,23 @@ public final class MakingEdgesTest {
             SmallCraft craft = Check.flying(AHEAD + "pipe a 0 0;pipe b 1 0;pipe c 2 0;pipe d 3 0;");
             Check.row("spans", new int[] {craft.ask(3, 1), craft.ask(4, 1), craft.ask(5, 1), craft.ask(6, 1)}, 1, 2, 1, 2);
         });
+        Check.sentence("Terms II, layer 16", "Parts: most = 200 + serial; speed = 0.", () -> {
+            SmallCraft craft = Check.flying("wheel w 1 0;");
+            Check.row("the first", Check.parts(craft, 0, 2, 42, 43, 44), 1, 2, 201, 0);
+        });
+        Check.sentence("Terms II, layer 16", "Answers: PUSH 2 + most / 100.", () -> {
+            StringBuilder book = new StringBuilder("battery b 9;");
+            for (int i = 0; i < 18; i++) {
+                book.append("finegyro f").append(i).append(" 1 1 0;");
+            }
+            SmallCraft craft = Check.flying(book + "wheel w 1 0;");
+            for (int serial = 76; serial <= 104; serial += 2) {
+                Check.row("serial " + serial, new int[] {craft.part(19, 2), craft.part(19, 41), craft.part(19, 42),
+                    craft.ask(19, 5)}, serial, 2, 2,
+                    serial < 100 ? 4 : 5);
+                craft.command(4, 19, 0);
+            }
+        });
         Check.sentence("Terms II, layer 1", "level = room / 2", () -> {
             SmallCraft craft = Check.flying("recorder r 20;recorder s 21;recorder u 2000;");
             Check.row("first", new int[] {craft.part(0, 19), craft.part(1, 19), craft.part(2, 19)}, 10, 10, 1000);
@@ -317,7 +373,8 @@ public final class MakingEdgesTest {
                 Check.due("19 - " + room + " is odd or not", craft.part(0, 64), room % 2 == 0 ? 1 : 0);
             }
         });
-        Check.sentence("Terms II", "Behind all (and behind each unit that is started again) TEST is asked of the unit", () -> {
+        Check.sentence("Terms II",
+            "Behind all (and behind each unit that is started again) TEST is asked of the unit", () -> {
             SmallCraft craft = Check.flying("coil k 3 0;");
             Check.due("push 9 more", craft.part(0, 64), 1);
             Check.due("refused once", craft.command(0, 0, 0), false);
@@ -334,14 +391,17 @@ public final class MakingEdgesTest {
     }
 
     private static void startedAgain() {
-        Check.sentence("Terms II", "number (how many units were made ahead of it; of one that is started again the one that it had)", () -> {
+        Check.sentence("Terms II",
+            "number (how many units were made ahead of it; of one that is started again the one that it had)", () -> {
             SmallCraft craft = Check.flying(AHEAD);
             craft.command(4, 1, 0);
             craft.command(4, 0, 0);
             Check.row("numbers", new int[] {craft.part(0, 1), craft.part(1, 1), craft.part(2, 1)}, 0, 1, 2);
             Check.row("of the notes, too", new int[] {craft.note(9, 0), craft.note(12, 0)}, 1, 0);
         });
-        Check.sentence("Terms II", "the unit goes, and one is made in its place, from its NUMBERS in the book, with DRAW, ADDRESS, RESERVE and NOTES as they go on", () -> {
+        Check.sentence("Terms II",
+            "the unit goes, and one is made in its place, from its NUMBERS in the book, with DRAW, ADDRESS, "
+            + "RESERVE and NOTES as they go on", () -> {
             SmallCraft craft = Check.flying("heater h 9;thermo o 7 0 -5;recorder r 30;");
             Check.row("at first", Check.crafts(craft, 0, 12, 13, 14, 15), 3, 6, 3, 16, 10);
             craft.run(25);
@@ -424,7 +484,9 @@ public final class MakingEdgesTest {
     }
 
     private static void part() {
-        Check.sentence("Promise 8", "IndexOutOfBoundsException when there is no such unit; then NoSuchElementException when it has no such part", () -> {
+        Check.sentence("Promise 8",
+            "IndexOutOfBoundsException when there is no such unit; then NoSuchElementException when it has "
+            + "no such part", () -> {
             SmallCraft craft = Check.flying(AHEAD);
             for (int unit : new int[] {-1, 3, 20, Integer.MIN_VALUE, Integer.MAX_VALUE}) {
                 Check.fails("part of unit " + unit, OUT, () -> craft.part(unit, 0));
@@ -438,7 +500,8 @@ public final class MakingEdgesTest {
             whoHas(FIRST_BOOK, FIRST_PARTS);
             whoHas(SECOND_BOOK, SECOND_PARTS);
         });
-        Check.sentence("Promise 8", "(every: of SENSORS and BEACONS; axis: of GYROS and ACTUATORS; most: of WHEELS and SOURCES)", () -> {
+        Check.sentence("Promise 8",
+            "(every: of SENSORS and BEACONS; axis: of GYROS and ACTUATORS; most: of WHEELS and SOURCES)", () -> {
             SmallCraft craft = Check.flying(FIRST_BOOK);
             Check.row("every", new int[] {craft.part(6, 31), craft.part(8, 31), craft.part(16, 31)}, 2, 3,
                 10 + craft.part(16, 49) % 7);
@@ -450,8 +513,13 @@ public final class MakingEdgesTest {
                 200 + craft.part(11, 2), 90, 90, 90);
             Check.fails("most of a coil", MISSING, () -> craft.part(12, 43));
         });
-        Check.sentence("Terms II", "PROBE, CAMERA and JET have a part of their own called of; THERMO, GENERATOR likewise.", () -> {
+        Check.sentence("Terms II",
+            "PROBE, CAMERA and JET have a part of their own called of; THERMO, GENERATOR likewise.", () -> {
             SmallCraft craft = Check.flying(FIRST_BOOK);
+            SmallCraft others = Check.flying("tank a 9;tank b 9;thermo c 9 1 0;probe d 9 9 2;jet e 9 0 1;reactor f 9 1;recorder g 20;camera h 9 9 6;");
+            Check.row("of units behind the first", new int[] {others.part(2, 27), others.part(3, 27), others.part(4,
+                27), others.part(5, 27),
+                others.part(7, 27)}, 1, 2, 1, 1, 6);
             Check.row("of", new int[] {craft.part(5, 27), craft.part(9, 27), craft.part(10, 27), craft.part(13, 27),
                 craft.part(14, 27), craft.part(19, 27)}, 0, 0, 1, 0, 0, 0);
             for (int unit : new int[] {0, 1, 2, 3, 4, 6, 7, 8, 11, 12, 15, 16, 17, 18}) {
@@ -477,7 +545,9 @@ public final class MakingEdgesTest {
                 }
             }
         });
-        Check.sentence("Promise 9", "IndexOutOfBoundsException when there is no such unit; then NoSuchElementException when no layer of it tells that.", () -> {
+        Check.sentence("Promise 9",
+            "IndexOutOfBoundsException when there is no such unit; then NoSuchElementException when no "
+            + "layer of it tells that.", () -> {
             SmallCraft craft = Check.flying(AHEAD);
             for (int unit : new int[] {-1, 3, 20, Integer.MIN_VALUE, Integer.MAX_VALUE}) {
                 Check.fails("ask of unit " + unit, OUT, () -> craft.ask(unit, 0));
@@ -486,7 +556,8 @@ public final class MakingEdgesTest {
             for (int question : new int[] {-1, 4, 5, 6, Integer.MIN_VALUE, Integer.MAX_VALUE}) {
                 Check.fails("question " + question, MISSING, () -> craft.ask(0, question));
             }
-            Check.row("all units answer these", new int[] {craft.ask(2, 0), craft.ask(2, 1), craft.ask(2, 2), craft.ask(2, 3)},
+            Check.row("all units answer these", new int[] {craft.ask(2, 0), craft.ask(2, 1), craft.ask(2, 2),
+                craft.ask(2, 3)},
                 6, 1, 11, 10);
             Check.fails("without units", OUT, () -> new SmallCraft().ask(0, 0));
         });
@@ -527,7 +598,9 @@ public final class MakingEdgesTest {
     }
 
     private static void at() {
-        Check.sentence("Promise 11", "The unit that has an address: base up to base + width - 1 (units that are there; of several the one with the greatest base); NONE.", () -> {
+        Check.sentence("Promise 11",
+            "The unit that has an address: base up to base + width - 1 (units that are there; of several "
+            + "the one with the greatest base); NONE.", () -> {
             SmallCraft craft = Check.flying("tank a 9;cellpack c 9 1;tank b 9;");
             int[] got = new int[9];
             for (int k = 0; k < 9; k++) {

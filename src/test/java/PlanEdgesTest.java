@@ -58,7 +58,8 @@ public final class PlanEdgesTest {
 
     private static void watches() {
         Check.sentence("Terms IV", "when: TERM is below (above) its number now", () -> {
-            SmallCraft craft = planned("tank t 50;reactor r 9 0;", "when light < 100 mode 0;when light < 101 mode 0;when light > 100 mode 0;"
+            SmallCraft craft = planned("tank t 50;reactor r 9 0;",
+                "when light < 100 mode 0;when light < 101 mode 0;when light > 100 mode 0;"
                 + "when light > 99 mode 0;when level t < 50 mode 0;when level t < 49 mode 0;when level t > 49 mode 0;"
                 + "when level t > 50 mode 0;when rate 0 > 0 mode 0;when rate 0 < 1 mode 0;when rate 0 > -1 mode 0;when rate 0 < 0 mode 0;");
             dueAt(craft, 1, 0, 1, 0, 1, 0, 0, 1, 0, 0, 1, 1, 0);
@@ -70,7 +71,8 @@ public final class PlanEdgesTest {
         });
         Check.sentence("Terms IV", "heat NAME | speed NAME (of a WHEEL) | reading NAME (of a SENSOR)", () -> {
             // Ahead of tick 0 they are 200, 0 and 0; ahead of tick 1 199, 2 and the gyro's drift, -3.
-            SmallCraft craft = planned("tank t 1;wheel w 1 0;gyro g 1 1 0;panel p 200 0;", "when heat t < 200 mode 2;when heat t < 199 mode 2;"
+            SmallCraft craft = planned("tank t 1;wheel w 1 0;gyro g 1 1 0;panel p 200 0;",
+                "when heat t < 200 mode 2;when heat t < 199 mode 2;"
                 + "when heat t > 199 mode 2;when heat t > 200 mode 2;when speed w > 0 mode 2;when speed w > 1 mode 2;when speed w > 2 mode 2;"
                 + "when reading g < 0 mode 2;when reading g > -1 mode 2;when reading g < -2 mode 2;when reading g < -3 mode 2;", 1, 2);
             craft.command(2, 2, 0);
@@ -98,8 +100,10 @@ public final class PlanEdgesTest {
                 dueAt(craft, 3, due);
             }
         });
-        Check.sentence("Terms IV", "and was not when the item was last looked at (ahead of any look it was not)", () -> {
-            SmallCraft craft = planned("tank t 1;", "when light > 50 mode 0;when light < 50 mode 0;when light > 100 mode 0;");
+        Check.sentence("Terms IV",
+            "and was not when the item was last looked at (ahead of any look it was not)", () -> {
+            SmallCraft craft = planned("tank t 1;",
+                "when light > 50 mode 0;when light < 50 mode 0;when light > 100 mode 0;");
             dueAt(craft, 1, 1, 0, 0);
             dueAt(craft, 340, 1, 0, 0);
             dueAt(craft, 350, 1, 0, 0);
@@ -117,15 +121,18 @@ public final class PlanEdgesTest {
             dueAt(same, 51, 2);
         });
         Check.sentence("Terms IV", "Items that are stopped are neither looked at nor done.", () -> {
-            SmallCraft craft = planned("tank t 1;", "at 0 stop 1;each 1 mode 1;each 1 mode 0;at 3 stop 2;at 5 stop 5;each 1 mode 0;when light < 50 mode 0;");
+            SmallCraft craft = planned("tank t 1;",
+                "at 0 stop 1;each 1 mode 1;each 1 mode 0;at 3 stop 2;at 5 stop 5;each 1 mode 0;when light < 50 mode 0;");
             dueAt(craft, 3, 1, 0, 2, 0, 0, 2, 0);
             dueAt(craft, 5, 1, 0, 3, 1, 0, 4, 0);
             dueAt(craft, 20, 1, 0, 3, 1, 1, 4, 0);
-            Check.row("stopped", new int[] {craft.item(0, 2), craft.item(1, 2), craft.item(2, 2), craft.item(5, 2), craft.item(6, 2)}, 0, 1, 1, 1, 0);
+            Check.row("stopped", new int[] {craft.item(0, 2), craft.item(1, 2), craft.item(2, 2), craft.item(5, 2),
+                craft.item(6, 2)}, 0, 1, 1, 1, 0);
             Check.row("not done", Check.crafts(craft, 2, 21), 0, 1 + 3 + 1 + 1 + 4);
         });
         Check.sentence("Terms III, step 2", "The items of the plan, in order (part IV).", () -> {
-            SmallCraft craft = planned("heater h 1;panel p 200 0;", "at 0 mode 1;at 0 mode 2;at 0 on h;at 1 off h;at 1 on h;at 2 on h;at 2 off h;");
+            SmallCraft craft = planned("heater h 1;panel p 200 0;",
+                "at 0 mode 1;at 0 mode 2;at 0 on h;at 1 off h;at 1 on h;at 2 on h;at 2 off h;");
             craft.run(1);
             Check.row("the last one stays", new int[] {craft.craft(2), craft.part(0, ON)}, 2, 1);
             craft.run(1);
@@ -137,8 +144,11 @@ public final class PlanEdgesTest {
 
     // ---- IV. What is done
     private static void switches() {
-        Check.sentence("Terms IV", "on: a LOAD that is not BROKEN is ON; but a STUBBORN one is STUBBORN no more instead; off: a LOAD is OFF", () -> {
-            SmallCraft craft = planned("coil k 3 0;heater h 1;panel p 200 0;", "at 0 on k;at 0 on h;at 2 on k;at 4 off k;at 4 off h;at 5 off h;");
+        Check.sentence("Terms IV",
+            "on: a LOAD that is not BROKEN is ON; but a STUBBORN one is STUBBORN no more instead; off: a "
+            + "LOAD is OFF", () -> {
+            SmallCraft craft = planned("coil k 3 0;heater h 1;panel p 200 0;",
+                "at 0 on k;at 0 on h;at 2 on k;at 4 off k;at 4 off h;at 5 off h;");
             Check.row("stubborn", new int[] {craft.part(0, STUBBORN), craft.part(1, STUBBORN)}, 1, 0);
             craft.run(1);
             Check.row("tick 0", new int[] {craft.part(0, ON), craft.part(0, STUBBORN), craft.part(1, ON)}, 0, 0, 1);
@@ -146,9 +156,12 @@ public final class PlanEdgesTest {
             Check.row("tick 2", new int[] {craft.part(0, ON), craft.part(1, ON)}, 1, 1);
             craft.run(3);
             Check.row("ticks 4 and 5", new int[] {craft.part(0, ON), craft.part(1, ON)}, 0, 0);
-            Check.row("refused", new int[] {craft.item(0, 1), craft.item(1, 1), craft.item(2, 1), craft.item(3, 1), craft.item(5, 1)}, 1, 0, 0, 0, 0);
+            Check.row("refused", new int[] {craft.item(0, 1), craft.item(1, 1), craft.item(2, 1), craft.item(3, 1),
+                craft.item(5, 1)}, 1, 0, 0, 0, 0);
         });
-        Check.sentence("Terms IV", "It is REFUSED (and nothing else is done): on of what is no LOAD, BROKEN or STUBBORN; off of what is no LOAD", () -> {
+        Check.sentence("Terms IV",
+            "It is REFUSED (and nothing else is done): on of what is no LOAD, BROKEN or STUBBORN; off of "
+            + "what is no LOAD", () -> {
             String book = "tank t 9;battery b 9;cellpack c 9 1;recorder r 20;panel p 9 0;tracker q 9 0;reactor s 9 0;pipe i 0 0;hose h 0 0 1;";
             SmallCraft craft = Check.flying(book);
             for (int unit = 0; unit < 9; unit++) {
@@ -181,7 +194,8 @@ public final class PlanEdgesTest {
             }
         });
         Check.sentence("Terms IV", "restart, 30 having been; all others are DONE.", () -> {
-            SmallCraft craft = planned("tank t 9;recorder r 20;", "each 1 restart t;each 1 mode 1;each 1 aim 0 0;each 1 wipe r;each 1 stop 29;");
+            SmallCraft craft = planned("tank t 9;recorder r 20;",
+                "each 1 restart t;each 1 mode 1;each 1 aim 0 0;each 1 wipe r;each 1 stop 29;");
             craft.run(31);
             Check.row("thirty", new int[] {craft.item(0, 0), craft.item(0, 1), craft.craft(23)}, 30, 0, 30);
             craft.run(2);
@@ -206,14 +220,16 @@ public final class PlanEdgesTest {
             craft.run(1);
             Check.row("none yet", new int[] {craft.item(0, 2), craft.item(2, 2), craft.item(3, 2)}, 0, 0, 0);
             craft.run(4);
-            Check.row("stopped", new int[] {craft.item(0, 2), craft.item(1, 2), craft.item(2, 2), craft.item(3, 2), craft.item(4, 2)}, 1, 0, 1, 1, 0);
+            Check.row("stopped", new int[] {craft.item(0, 2), craft.item(1, 2), craft.item(2, 2), craft.item(3, 2),
+                craft.item(4, 2)}, 1, 0, 1, 1, 0);
             Check.row("due", dues(craft), 2, 1, 1, 0, 1);
             Check.row("done, refused", Check.crafts(craft, 21, 22), 5, 0);
             Check.due("one that is not there", craft.command(6, 5, 0), true);
             Check.due("the last that could be", craft.command(6, 29, 0), true);
             Check.plan(craft, "each 1 mode 0;".repeat(30));
             craft.run(1);
-            Check.row("it was of the plan ahead", new int[] {craft.item(5, 0), craft.item(5, 2), craft.item(29, 0), craft.item(29, 2)}, 1, 0, 1, 0);
+            Check.row("it was of the plan ahead", new int[] {craft.item(5, 0), craft.item(5, 2), craft.item(29, 0),
+                craft.item(29, 2)}, 1, 0, 1, 0);
             Check.due("the last item", craft.command(6, 29, 0), true);
             craft.run(1);
             Check.row("is stopped", new int[] {craft.item(28, 0), craft.item(29, 0), craft.item(29, 2)}, 2, 1, 1);
@@ -222,7 +238,8 @@ public final class PlanEdgesTest {
             Check.row("itself", new int[] {itself.item(0, 0), itself.item(0, 2)}, 1, 1);
         });
         Check.sentence("Terms IV", "mode: MODE is that; aim: that aim", () -> {
-            SmallCraft craft = planned("tank t 9;", "at 0 aim 0 3599;at 0 aim 1 0;at 0 aim 2 1800;at 1 aim 0 0;at 1 mode 3;at 2 mode 0;");
+            SmallCraft craft = planned("tank t 9;",
+                "at 0 aim 0 3599;at 0 aim 1 0;at 0 aim 2 1800;at 1 aim 0 0;at 1 mode 3;at 2 mode 0;");
             craft.run(1);
             Check.row("tick 0", Check.crafts(craft, 2, 9, 10, 11), 0, 3599, 0, 1800);
             craft.run(1);
@@ -234,7 +251,10 @@ public final class PlanEdgesTest {
 
     // ---- promises 7, 15 and 16
     private static void command() {
-        Check.sentence("Promise 7", "An act of the ground, as one of the plan, ahead of the next TICK: act 0 on, 1 off, 4 restart, 5 wipe of unit a; 2 mode a; 3 aim a, b; 6 stop a: true if it is DONE, false if it is REFUSED (both count).", () -> {
+        Check.sentence("Promise 7",
+            "An act of the ground, as one of the plan, ahead of the next TICK: act 0 on, 1 off, 4 restart, "
+            + "5 wipe of unit a; 2 mode a; 3 aim a, b; 6 stop a: true if it is DONE, false if it is REFUSED "
+            + "(both count).", () -> {
             SmallCraft craft = planned("recorder r 20;heater h 1;coil k 3 0;tank t 9;", "each 1 mode 0;".repeat(2));
             craft.run(25);
             int done = craft.craft(21);
@@ -250,7 +270,8 @@ public final class PlanEdgesTest {
             Check.due("stop", craft.command(6, 0, -7), true);
             Check.due("stop", craft.command(6, 29, -7), true);
             Check.row("all count", Check.crafts(craft, 21, 22, 23), done + 10, 0, 1);
-            Check.row("what they did", new int[] {craft.part(0, LEVEL), craft.part(1, ON), craft.item(0, 2), craft.item(1, 2), craft.craft(11)}, 0, 0, 1, 0, 3599);
+            Check.row("what they did", new int[] {craft.part(0, LEVEL), craft.part(1, ON), craft.item(0, 2),
+                craft.item(1, 2), craft.craft(11)}, 0, 0, 1, 0, 3599);
             Check.due("on of a stubborn one", craft.command(0, 2, 0), false);
             Check.due("on of a tank", craft.command(0, 3, 0), false);
             Check.due("off of a tank", craft.command(1, 3, 0), false);
@@ -280,10 +301,12 @@ public final class PlanEdgesTest {
         });
         Check.sentence("Promise 7", "or a number is out of its range", () -> {
             SmallCraft craft = Check.flying("recorder r 20;");
-            int[][] wrong = {{2, -1, 0}, {2, 4, 0}, {3, -1, 0}, {3, 3, 0}, {3, 0, -1}, {3, 0, 3600}, {3, 2, 3600}, {6, -1, 0}, {6, 30, 0},
+            int[][] wrong = {{2, -1, 0}, {2, 4, 0}, {3, -1, 0}, {3, 3, 0}, {3, 0, -1}, {3, 0, 3600}, {3, 2, 3600}, {6,
+                -1, 0}, {6, 30, 0},
                 {2, Integer.MAX_VALUE, 0}, {3, Integer.MIN_VALUE, 0}, {3, 0, Integer.MAX_VALUE}, {6, Integer.MAX_VALUE, 0}};
             for (int[] w : wrong) {
-                Check.fails("command " + w[0] + " " + w[1] + " " + w[2], ILLEGAL, () -> craft.command(w[0], w[1], w[2]) ? 1 : 0);
+                Check.fails("command " + w[0] + " " + w[1] + " " + w[2], ILLEGAL, () -> craft.command(w[0], w[1],
+                    w[2]) ? 1 : 0);
             }
             Check.row("nothing is done", Check.crafts(craft, 2, 9, 10, 11, 21, 22), 0, 0, 0, 0, 0, 0);
             int[][] good = {{2, 0, 0}, {2, 3, 0}, {3, 0, 0}, {3, 2, 3599}, {6, 0, 0}, {6, 29, 0}};
@@ -305,7 +328,9 @@ public final class PlanEdgesTest {
     }
 
     private static void item() {
-        Check.sentence("Promise 15", "Of item i of the plan: what 0 how often it was due, 1 how often REFUSED, 2 whether it is stopped (1, 0).", () -> {
+        Check.sentence("Promise 15",
+            "Of item i of the plan: what 0 how often it was due, 1 how often REFUSED, 2 whether it is "
+            + "stopped (1, 0).", () -> {
             SmallCraft craft = planned("tank t 9;", "each 1 on t;each 2 mode 0;at 3 stop 0;");
             Check.row("ahead of any", new int[] {craft.item(0, 0), craft.item(0, 1), craft.item(0, 2)}, 0, 0, 0);
             craft.run(6);
@@ -329,15 +354,33 @@ public final class PlanEdgesTest {
             Check.due("no plan", craft.item(0, 0), -1);
             Check.due("a new object", new SmallCraft().item(0, 0), -1);
         });
-        Check.sentence("Promise 16", "20 bytes that went down, 21 acts DONE, 22 REFUSED, 23 STARTED AGAIN, 24 items of the plan", () -> {
+        Check.sentence("Promise 16",
+            "20 bytes that went down, 21 acts DONE, 22 REFUSED, 23 STARTED AGAIN, 24 items of the plan", () -> {
             SmallCraft craft = planned("tank t 9;beacon b 1 1;panel p 200 0;", "at 0 restart t;at 0 on t;", 1);
             int[] before = Check.crafts(craft, 21, 22);
             craft.run(1);
             Check.row("one of each", Check.crafts(craft, 20, 21, 22, 23, 24), 1, before[0] + 1, before[1] + 1, 1, 2);
             craft.plan(0);
             Check.row("a plan of nothing", Check.crafts(craft, 20, 21, 22, 23, 24), 1, before[0] + 1, before[1] + 1, 1, 0);
+        });
+    }
+
+    private static void counts() {
+        Check.sentence("Promise 16",
+            "16 BROWNOUTS, 17 FAILURES, 18 frames that were kept, 19 LOST ones, 20 bytes that went down, 21 "
+            + "acts DONE, 22 REFUSED, 23 STARTED AGAIN, 24 items of the plan", () -> {
+            SmallCraft craft = planned("beacon b 1 1;recorder r 20;tank t 1;tracker p 1 2;battery c 100;",
+                "each 1 on b;each 9 on t;each 100 restart t;");
+            craft.run(500);
+            for (int what = 16; what <= 24; what++) {
+                Check.due("craft(" + what + ") is above 0", craft.craft(what) > 0, true);
+            }
+            int[] before = Check.crafts(craft, 16, 17, 18, 19, 20, 21, 22, 23, 24);
+            Check.load(craft, "tank");
+            Check.row("all stay behind a fault", Check.crafts(craft, 16, 17, 18, 19, 20, 21, 22, 23, 24), before);
             Check.load(craft, "tank t 9;");
-            Check.row("a load", Check.crafts(craft, 16, 17, 18, 19, 20, 21, 22, 23, 24), 0, 0, 0, 0, 0, 0, 0, 0, 0);
+            Check.row("none was since load()", Check.crafts(craft, 16, 17, 18, 19, 20, 21, 22, 23, 24), 0, 0, 0, 0, 0,
+                0, 0, 0, 0);
         });
     }
 
@@ -347,6 +390,7 @@ public final class PlanEdgesTest {
         switches();
         command();
         item();
+        counts();
         Check.end();
     }
 }

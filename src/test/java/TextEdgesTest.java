@@ -131,7 +131,8 @@ public final class TextEdgesTest {
             Check.bookFault("tank t -:", 1, 8);
             Check.planFault("when light < -;", 1, 14);
         });
-        Check.sentence("Terms I", "2 a TOKEN that can't stand there (the end, too: its place is the text's length)", () -> {
+        Check.sentence("Terms I",
+            "2 a TOKEN that can't stand there (the end, too: its place is the text's length)", () -> {
             for (int n : new int[] {4, 5, 6, 7, 8, 9}) {
                 Check.bookFault("tank t  5;".substring(0, n), 2, n);
             }
@@ -151,7 +152,8 @@ public final class TextEdgesTest {
             Check.bookFault("tank toto 5;tank  toto 5;", 3, 18);
             Check.bookFault("\u00ff", 1, 0);
         });
-        Check.sentence("Terms I", "FAULTS of a text, the first as TOKENS are taken one by one (each is read as it is wanted)", () -> {
+        Check.sentence("Terms I",
+            "FAULTS of a text, the first as TOKENS are taken one by one (each is read as it is wanted)", () -> {
             Check.bookFault("tank t 0 A", 5, 7);
             Check.bookFault("tank t 5;tank t A", 3, 14);
             Check.bookFault("boat A", 2, 0);
@@ -211,7 +213,8 @@ public final class TextEdgesTest {
             SmallCraft craft = Check.flying("tank t 5;");
             Check.due("a name of the book ahead is free", Check.load(craft, "tank t 6;"), 1);
         });
-        Check.sentence("Terms I", "Then as many NUMBERS as the KIND has, each from .. to as told (5 if it is not).", () -> {
+        Check.sentence("Terms I",
+            "Then as many NUMBERS as the KIND has, each from .. to as told (5 if it is not).", () -> {
             for (String line : LINES) {
                 String ahead = "tank t 9;recorder r 20;" + line.substring(0, line.length() - 1);
                 Check.goodBook(ahead + ";", 3);
@@ -281,7 +284,9 @@ public final class TextEdgesTest {
             Check.planFault("when 5 < 5 mode 1;", 2, 5);
             Check.planFault("wheny light < 5 mode 1;", 2, 0);
         });
-        Check.sentence("Terms IV", "TERM: level NAME (of a STORE) | heat NAME | speed NAME (of a WHEEL) | reading NAME (of a SENSOR)", () -> {
+        Check.sentence("Terms IV",
+            "TERM: level NAME (of a STORE) | heat NAME | speed NAME (of a WHEEL) | reading NAME (of a "
+            + "SENSOR)", () -> {
             String[] units = {"bat", "rec", "w", "g", "h"};
             named("when level ", " < 5 mode 1;", units, 1, 1, 0, 0, 0);
             named("when heat ", " < 5 mode 1;", units, 1, 1, 1, 1, 1);
@@ -400,6 +405,10 @@ public final class TextEdgesTest {
             Check.due("a plan of nothing", craft.plan(0), 0);
             Check.due("a book of nothing", craft.load(0), 0);
         });
+        Check.sentence("Terms", "The constants: `NONE = -1`: There is none.", () -> {
+            Check.due("NONE", SmallCraft.NONE, -1);
+            Check.due("an empty answer", new SmallCraft().at(0), SmallCraft.NONE);
+        });
         Check.sentence("What it is", "An object is used for at most 512 calls after it has been made", () -> {
             SmallCraft craft = new SmallCraft();
             craft.feed(0x74616e6b, 0x20742039, 0x303b0000, 0, 0);
@@ -414,12 +423,15 @@ public final class TextEdgesTest {
     }
 
     private static void feed() {
-        Check.sentence("Promise 2", "Twenty bytes come behind those on the TAPE, four of each number, the highest first: how many there are.", () -> {
+        Check.sentence("Promise 2",
+            "Twenty bytes come behind those on the TAPE, four of each number, the highest first: how many "
+            + "there are.", () -> {
             SmallCraft craft = new SmallCraft();
             Check.due("a first feed", craft.feed(0x74616e6b, 0x0a616263, 0x64656667, 0x68203139, 0x39393b20), 20);
             Check.due("a second feed", craft.feed(0x74616e6b, 0x20782035, 0x3b202020, 0x202020ff, -1), 40);
             Check.due("the text", craft.load(35), 2);
-            Check.row("its letters and number", new int[] {craft.name(0, 0), craft.name(0, 7), craft.part(0, 9)}, 'a', 'h', 1999);
+            Check.row("its letters and number", new int[] {craft.name(0, 0), craft.name(0, 7), craft.part(0, 9)}, 'a',
+                'h', 1999);
             craft.feed(0x20202020, 0x80202020, 0, 0, 0);
             Check.due("a byte above 127", craft.load(20), -1);
             row("it is one byte", craft, 1, 4);
@@ -441,7 +453,9 @@ public final class TextEdgesTest {
     }
 
     private static void load() {
-        Check.sentence("Promise 3", "The first n bytes of the TAPE (which is empty then) are read as a BOOK; its units are made in place of all there were: how many.", () -> {
+        Check.sentence("Promise 3",
+            "The first n bytes of the TAPE (which is empty then) are read as a BOOK; its units are made in "
+            + "place of all there were: how many.", () -> {
             SmallCraft craft = new SmallCraft();
             Check.type(craft, "tank t 55;tank u 5;");
             Check.due("the first ten", craft.load(10), 1);
@@ -474,7 +488,8 @@ public final class TextEdgesTest {
             craft.run(1);
             Check.row("it flies on", new int[] {craft.craft(1), craft.item(0, 0)}, 31, 30);
         });
-        Check.sentence("Promise 3", "IllegalArgumentException, and the TAPE stays, when n is below 0 or more than there are.", () -> {
+        Check.sentence("Promise 3",
+            "IllegalArgumentException, and the TAPE stays, when n is below 0 or more than there are.", () -> {
             SmallCraft craft = Check.flying("tank t 50;");
             for (int n : new int[] {-1, 1, Integer.MIN_VALUE, Integer.MAX_VALUE}) {
                 Check.fails("load of " + n + ", the tape being empty", ILLEGAL, () -> craft.load(n));
@@ -507,7 +522,9 @@ public final class TextEdgesTest {
     }
 
     private static void plan() {
-        Check.sentence("Promise 4", "The first n bytes of the TAPE (which is empty then) are read as a PLAN, in place of the one that was (no item was looked at yet): how many items.", () -> {
+        Check.sentence("Promise 4",
+            "The first n bytes of the TAPE (which is empty then) are read as a PLAN, in place of the one "
+            + "that was (no item was looked at yet): how many items.", () -> {
             SmallCraft craft = Check.flying("tank t 5;");
             Check.type(craft, "at 5 mode 1;at 6 mode 2;");
             Check.due("the first twelve", craft.plan(12), 1);
@@ -519,6 +536,14 @@ public final class TextEdgesTest {
             Check.row("as if new", new int[] {craft.item(0, 0), craft.item(1, 0), craft.item(1, 2)}, 0, 0, 0);
             craft.run(1);
             Check.row("due again", new int[] {craft.item(0, 0), craft.item(1, 0), craft.item(1, 2)}, 1, 1, 1);
+            for (int k = 0; k < 4; k++) {
+                Check.plan(craft, "when light > 5 on t;each 1 stop 1;");
+                Check.row("new again", new int[] {craft.item(0, 0), craft.item(0, 1), craft.item(1, 0), craft.item(1,
+                    2)}, 0, 0, 0, 0);
+                craft.run(2);
+                Check.row("due again", new int[] {craft.item(0, 0), craft.item(0, 1), craft.item(1, 0), craft.item(1,
+                    2)}, 1, 1, 1, 1);
+            }
             Check.due("none of the tape", craft.plan(0), 0);
             Check.row("no items", new int[] {craft.craft(24), craft.item(0, 0)}, 0, -1);
             Check.due("without units, too", Check.plan(new SmallCraft(), "at 5 mode 2;"), 1);
@@ -527,9 +552,11 @@ public final class TextEdgesTest {
             SmallCraft craft = Check.flying("tank t 5;");
             Check.plan(craft, "when light > 5 mode 1;each 1 mode 2;each 1 stop 2;");
             craft.run(3);
-            for (String text : new String[] {"at 5 mode 2;at", "at 5 mode 4;", "at 5 on x;", "at 5 mode 1;".repeat(31), "A", ";"}) {
+            for (String text : new String[] {"at 5 mode 2;at", "at 5 mode 4;", "at 5 on x;",
+                "at 5 mode 1;".repeat(31), "A", ";"}) {
                 Check.due("a fault", Check.plan(craft, text), -1);
-                Check.row("the plan stays", new int[] {craft.craft(24), craft.item(0, 0), craft.item(1, 0), craft.item(2, 2)},
+                Check.row("the plan stays", new int[] {craft.craft(24), craft.item(0, 0), craft.item(1, 0),
+                    craft.item(2, 2)},
                     3, 1, 2, 1);
                 Check.due("but the tape is empty", craft.feed(0, 0, 0, 0, 0), 20);
                 craft.plan(20);
@@ -553,7 +580,8 @@ public final class TextEdgesTest {
     }
 
     private static void fault() {
-        Check.sentence("Promise 5", "Of the latest load() or plan(): what 0 the fault, 0 without one; 1 its place, NONE without one.", () -> {
+        Check.sentence("Promise 5",
+            "Of the latest load() or plan(): what 0 the fault, 0 without one; 1 its place, NONE without one.", () -> {
             SmallCraft craft = new SmallCraft();
             row("ahead of any", craft, 0, -1);
             Check.load(craft, "tank t 0;");
